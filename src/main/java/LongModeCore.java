@@ -1087,6 +1087,8 @@ public final class LongModeCore {
 
     /** Products and quotients, which have two halves. */
     static final class Wide {
+        private static final long TOP_BIT = 1L << 63;
+
         private final Arithmetic arithmetic;
         /** The lower half of a product, or the quotient. */
         long low;
@@ -1168,8 +1170,9 @@ public final class LongModeCore {
             high = rest;
         }
 
+        /** Without signs. */
         private static boolean isBelow(long first, long second) {
-            return first + Long.MIN_VALUE < second + Long.MIN_VALUE;
+            return (first ^ TOP_BIT) < (second ^ TOP_BIT);
         }
     }
 

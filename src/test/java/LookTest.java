@@ -142,6 +142,7 @@ final class LookTest {
         Bench.due("just beyond memory", bench.look(0x5ABC, WRITE), 0x8ABC);
         bench.store(0x3000, 0x8007);
         Bench.due("a table beyond memory", bench.look(0x5ABC, READ), -2);
+        Bench.due("the first entry beyond memory", bench.look(0x0ABC, READ), -2);
         bench.store(0x3000, 0x000FFFFFFFFFF007L);
         Bench.due("a table far beyond memory", bench.look(0x5ABC, READ), -2);
         bench.set(Bench.TABLE, -1L);

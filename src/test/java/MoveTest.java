@@ -82,6 +82,7 @@ final class MoveTest {
         bench.set(0, 0x80007FFFL).done("98").has("98 of 4, no sign", 0, 0x7FFF);
         bench.set(2, OLD).set(0, 0x8000).done("66 99").has("99 of 2", 2, Bench.kept(OLD, -1, 2));
         bench.set(2, OLD).done("99").has("99 of 4, no sign", 2, 0);
+        bench.set(2, OLD).set(0, 0).done("48 99").has("99 of 0", 2, 0);
         bench.set(2, OLD).set(0, 0x80000000L).done("99").has("99 of 4", 2, 0xFFFFFFFFL);
         bench.done("48 99").has("99 of 8, no sign", 2, 0).set(0, -5).done("48 99").has("99 of 8", 2, -1);
         bench.has("register 0 stays", 0, -5).has("flags stay", Bench.FLAGS, Bench.SEVEN);

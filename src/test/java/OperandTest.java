@@ -15,6 +15,7 @@ final class OperandTest {
         acrossPages();
         aroundTheEnd();
         beyondMemory();
+        firstByte();
         readAsForAWrite();
         Bench.finish("OperandTest");
     }
@@ -138,6 +139,7 @@ final class OperandTest {
         Bench bench = new Bench().set(3, 0x9123);
         bench.page("8B 03", 0x9123, 0).page("89 03", 0x9123, 2).page("01 03", 0x9123, 2).page("03 03", 0x9123, 0);
         bench.page("39 03", 0x9123, 0).page("85 03", 0x9123, 0).page("87 03", 0x9123, 2).page("F7 03 00000000", 0x9123, 0);
+        bench.page("F6 13", 0x9123, 2).page("F6 1B", 0x9123, 2).page("F6 2B", 0x9123, 0).page("F6 3B", 0x9123, 0);
         bench.page("F7 13", 0x9123, 2).page("F7 1B", 0x9123, 2).page("F7 23", 0x9123, 0).page("F7 33", 0x9123, 0);
         bench.page("FE 03", 0x9123, 2).page("FF 0B", 0x9123, 2).page("FF 13", 0x9123, 0).page("FF 23", 0x9123, 0);
         bench.page("FF 33", 0x9123, 0).page("8F 03", 0x9123, 2).page("C7 03 00000000", 0x9123, 2).page("63 03", 0x9123, 0);
@@ -218,6 +220,16 @@ final class OperandTest {
         bench.store(Bench.LAST_TABLE + 40, 0x7007).store(Bench.LAST_TABLE + 48, 0x6007).store(Bench.LAST_TABLE + 56, 0x8007);
         bench.store(0x7FF8, 0).set(3, 0x5FFF).set(3, 0x7000).done("48 89 03").done("48 8B 0B").has("just beyond memory", 1, 0);
         bench.holds("memory's last bytes", 0x7FF8, 0).holds("memory's first bytes", 0, 0);
+    }
+
+    /** Memory's very first byte is as good as any other. */
+    private static void firstByte() {
+        Bench bench = new Bench().store(Bench.LAST_TABLE + 40, 7).store(0, 0x8877665544332211L).set(3, Bench.DATA);
+        bench.done("48 8B 03").has("memory's first bytes", 0, 0x8877665544332211L);
+        bench.done("C6 03 99").holds("memory's first byte", 0, 0x8877665544332299L);
+        bench.bytes(0, "48 FF C0").set(0, 6).set(Bench.NEXT, Bench.DATA);
+        Bench.due("code in memory's first bytes", bench.core.step(), Bench.NONE);
+        bench.has("code in memory's first bytes", 0, 7);
     }
 
     private static void readAsForAWrite() {

@@ -16,6 +16,7 @@ final class StringsTest {
         comparing();
         repeatedNothing();
         refusals();
+        oneAfterTheOther();
         refusedInBetween();
         Bench.finish("StringsTest");
     }
@@ -105,6 +106,14 @@ final class StringsTest {
         bench.refused("A4", Bench.WRONG).refused("A6", Bench.WRONG).refused("AC", Bench.WRONG).refused("F3 AD", Bench.WRONG);
         bench.set(6, 0x7FFD).page("A5", 0x8000, 0).set(6, FROM).set(7, 0x7FFD).page("A5", 0x8000, 2).page("AB", 0x8000, 2);
         bench.store(Bench.LAST_TABLE + 40, 0x5005).set(7, TO).page("AA", TO, 3).page("A4", TO, 3).done("A6").done("AE");
+    }
+
+    /** What one string wrote to isn't written by the next. */
+    private static void oneAfterTheOther() {
+        Bench bench = withPlaces(false).done("48 AB").holds("STOS", TO, -2).store(TO, SECOND);
+        bench.done("48 AD").has("LODS after STOS", 0, FIRST).holds("LODS after STOS", TO, SECOND);
+        bench.done("48 AF").holds("SCAS after STOS", TO, SECOND).set(6, FROM).set(7, TO).done("48 A7");
+        bench.holds("CMPS after STOS", TO, SECOND).holds("CMPS after STOS", FROM, FIRST);
     }
 
     private static void refusedInBetween() {

@@ -59,6 +59,21 @@ final class Bench {
         return this;
     }
 
+    /** The last table's entry for that page. */
+    Bench map(int page, long entry) {
+        return store(LAST_TABLE + 8 * page, entry);
+    }
+
+    /**
+     * The first page of each half, 0 and UPPER_HALF, lies where page 5 does; the last one of each
+     * half, up to FIRST_WRONG and up to the last place of all, where page 7 does.
+     */
+    Bench ends() {
+        store(0x1000 + 8 * 255, 0x2007).store(0x1000 + 8 * 256, 0x2007).store(0x1000 + 8 * 511, 0x2007);
+        store(0x2000 + 8 * 511, 0x3007).store(0x3000 + 8 * 511, LAST_TABLE | 7);
+        return map(511, 0x7007).map(0, 0x5007);
+    }
+
     Bench set(int register, long value) {
         due("set " + register, core.set(register, (int) (value >>> 32), (int) value) ? 1 : 0, 1);
         return this;
@@ -88,6 +103,11 @@ final class Bench {
         return bytes(CODE, text).set(NEXT, CODE);
     }
 
+    /** These bytes in memory, and NEXT at a place that is looked up to them. */
+    Bench at(int memory, long place, String text) {
+        return bytes(memory, text).set(NEXT, place);
+    }
+
     /** The reason of one step over these bytes. */
     int step(String text) {
         code(text);
@@ -96,25 +116,46 @@ final class Bench {
 
     /** One step over these bytes, which is not refused and goes on to the next instruction. */
     Bench done(String text) {
-        due(text, step(text), NONE);
-        due(text + ": NEXT", get(NEXT), CODE + text.replace(" ", "").length() / 2);
+        return goes(text, CODE + text.replace(" ", "").length() / 2);
+    }
+
+    /** One step over these bytes, which is not refused and leaves NEXT at that place. */
+    Bench goes(String text, long place) {
+        return code(text).goesOn(text, place);
+    }
+
+    /** One step from where NEXT is, which is not refused and leaves it at that place. */
+    Bench goesOn(String what, long place) {
+        due(what, core.step(), NONE);
+        due(what + ": NEXT", get(NEXT), place);
         return this;
     }
 
     /** One step over these bytes, which is refused and changes nothing. */
     Bench refused(String text, int reason) {
-        code(text);
+        return code(text).stays(text, reason);
+    }
+
+    /** One step from where NEXT is, which is refused and changes nothing, but at a PAGE FAULT and the CODE. */
+    Bench stays(String what, int reason) {
         String before = state();
-        due(text, core.step(), reason);
-        due(text + " changes something", state().equals(before) ? 0 : 1, 0);
+        long fault = get(FAULT);
+        long code = get(FAULT_CODE);
+        due(what, core.step(), reason);
+        due(what + " changes something", state().equals(before) ? 0 : 1, 0);
+        if (reason != PAGE) {
+            has(what + ": FAULT", FAULT, fault).has(what + ": the CODE", FAULT_CODE, code);
+        }
         return this;
     }
 
+    /** One step from where NEXT is, which is a PAGE. */
+    Bench pageHere(String what, long fault, int code) {
+        return stays(what, PAGE).has(what + ": FAULT", FAULT, fault).has(what + ": the CODE", FAULT_CODE, code);
+    }
+
     Bench page(String text, long fault, int code) {
-        refused(text, PAGE);
-        due(text + ": FAULT", get(FAULT), fault);
-        due(text + ": CODE", get(FAULT_CODE), code);
-        return this;
+        return code(text).pageHere(text, fault, code);
     }
 
     Bench has(String what, int register, long want) {
@@ -148,6 +189,14 @@ final class Bench {
                 System.out.println(what + " answered " + Long.toHexString(got) + ", due is " + Long.toHexString(want));
             }
         }
+    }
+
+    static int asked() {
+        return asked;
+    }
+
+    static int wrong() {
+        return wrong;
     }
 
     static void finish(String name) {

@@ -80,7 +80,8 @@ final class BitSentences {
             }
             String memory = Bench.hex(0x03 | kind << 3, 1);
             Bench bench = new Bench().map(5, 0x5005).set(3, Bench.DATA).set(1, count);
-            bench.page(sized(bytes, 0xC0) + memory + Bench.hex(count, 1), Bench.DATA, 3).page(sized(bytes, 0xD2) + memory, Bench.DATA, 3);
+            bench.page(sized(bytes, 0xC0) + memory + Bench.hex(count, 1), Bench.DATA, 3)
+                    .page(sized(bytes, 0xD2) + memory, Bench.DATA, 3);
             bench.map(5, 0x5007).store(Bench.DATA, OLD).done(sized(bytes, 0xD2) + memory).holds("as it was", Bench.DATA, OLD);
         }
     }
@@ -110,7 +111,8 @@ final class BitSentences {
                 shift(kind, 2, 0x8196, 16, carry, 0).has("size 2 by 16", 3, left == 1 ? 0x40CB | carry << 15 : 0x032C | carry);
                 // Of sizes 4 and 8 the count stays below what would need a modulo.
                 shift(kind, 4, 1, 31, carry, 0).has("size 4 by 31", 3, left == 1 ? 0x80000000L | carry << 30 : 4 | carry << 1);
-                shift(kind, 8, 1, 63, carry, 0).has("size 8 by 63", 3, left == 1 ? Long.MIN_VALUE | (long) carry << 62 : 4 | carry << 1);
+                shift(kind, 8, 1, 63, carry, 0)
+                        .has("size 8 by 63", 3, left == 1 ? Long.MIN_VALUE | (long) carry << 62 : 4 | carry << 1);
                 shift(kind, 4, 1, 32, carry, 0).has("size 4 by 32", 3, 1);
             }
         }
@@ -240,13 +242,15 @@ final class BitSentences {
             for (int flags : new int[] {0, Bench.SEVEN, Bench.SIGN, Bench.SEVEN & ~Bench.OVER}) {
                 boolean holds = holds(condition, flags);
                 for (int bytes = 2; bytes <= 8; bytes *= 2) {
-                    Bench bench = new Bench().set(Bench.FLAGS, flags).set(1, OLD).set(3, OTHER).done(Bench.prefix(bytes) + opcode + "CB");
+                    Bench bench = new Bench().set(Bench.FLAGS, flags).set(1, OLD).set(3, OTHER)
+                            .done(Bench.prefix(bytes) + opcode + "CB");
                     long stays = bytes == 4 ? OLD & 0xFFFFFFFFL : OLD;
                     bench.has(opcode + " of " + bytes, 1, holds ? Bench.kept(OLD, OTHER, bytes) : stays).has("e stays", 3, OTHER);
                     bench.has("no flags", Bench.FLAGS, flags);
                 }
                 Bench bench = new Bench().set(Bench.FLAGS, flags).set(3, 0x9000).set(1, OLD).page(opcode + "0B", 0x9000, 0);
-                bench.set(3, Bench.FIRST_WRONG).refused("48" + opcode + "0B", Bench.WRONG).set(3, 0x7FFC).page("48" + opcode + "0B", 0x8000, 0);
+                bench.set(3, Bench.FIRST_WRONG).refused("48" + opcode + "0B", Bench.WRONG).set(3, 0x7FFC)
+                        .page("48" + opcode + "0B", 0x8000, 0);
                 bench.map(5, 0x5005).set(3, Bench.DATA).done(opcode + "0B").has("of memory", 1, holds ? 0 : OLD & 0xFFFFFFFFL);
             }
         }
@@ -257,7 +261,8 @@ final class BitSentences {
             String opcode = "0F" + Bench.hex(0x90 | condition, 1);
             for (int flags : new int[] {0, Bench.SEVEN, Bench.OVER}) {
                 long want = holds(condition, flags) ? 1 : 0;
-                Bench bench = new Bench().set(Bench.FLAGS, flags).set(3, OLD).done(opcode + "C3").has(opcode, 3, OLD & ~255L | want);
+                Bench bench = new Bench().set(Bench.FLAGS, flags).set(3, OLD).done(opcode + "C3")
+                        .has(opcode, 3, OLD & ~255L | want);
                 bench.set(3, OLD).done("48" + opcode + "C3").has("W is no matter", 3, OLD & ~255L | want);
                 bench.set(3, OLD).done("66" + opcode + "C7").has("bits 8 .. 15", 3, OLD & ~0xFF00L | want << 8);
                 bench.set(3, 0x7FFF).bytes(0x7FFF, "FF").done("48" + opcode + "03").holds("1 byte of memory", 0x7FF8, want << 56);
@@ -296,13 +301,15 @@ final class BitSentences {
                 bench.done(prefix + "B6 CB").has("B6", 1, Bench.kept(OLD, value & 255, bytes)).set(1, OLD);
                 bench.done(prefix + "B7 CB").has("B7", 1, Bench.kept(OLD, value & 65535, bytes)).set(1, OLD);
                 bench.done(prefix + "BE CB").has("BE", 1, Bench.kept(OLD, (byte) value, bytes)).set(1, OLD);
-                bench.done(prefix + "BF CB").has("BF", 1, Bench.kept(OLD, (short) value, bytes)).has("no flags", Bench.FLAGS, Bench.SEVEN);
+                bench.done(prefix + "BF CB").has("BF", 1, Bench.kept(OLD, (short) value, bytes))
+                        .has("no flags", Bench.FLAGS, Bench.SEVEN);
             }
             Bench bench = new Bench().set(3, 0x7FFF).bytes(0x7FFF, "FE").done(prefix + "B6 0B").has("1 byte alone", 1, 0xFE);
             bench.set(1, 0).done(prefix + "BE 0B").has("1 byte alone", 1, -2 & Bench.mask(bytes));
             bench.page(prefix + "B7 0B", 0x8000, 0).page(prefix + "BF 0B", 0x8000, 0).set(3, 0x7FFE).done(prefix + "B7 0B");
         }
-        new Bench().set(3, 0x8000).done("0F B6 CF").has("bits 8 .. 15", 1, 0x80).done("0F BE CF").has("with their sign", 1, 0xFFFFFF80L);
+        new Bench().set(3, 0x8000).done("0F B6 CF").has("bits 8 .. 15", 1, 0x80).done("0F BE CF")
+                .has("with their sign", 1, 0xFFFFFF80L);
     }
 
     private static void changeAndAdd() {
@@ -320,8 +327,10 @@ final class BitSentences {
                 bench.set(3, pair[0]).done(opcode + "DB").has("one register", 3, 2 * pair[0] & mask);
                 bench.has("flags", Bench.FLAGS, Bench.DOWN | SumTest.sumFlags(false, pair[0], pair[0], 0, bytes));
             }
-            Bench bench = new Bench().set(3, OLD).set(1, OTHER).done(opcode + "CB").has("the rest", 3, Bench.kept(OLD, OLD + OTHER, bytes));
-            bench.has("the rest", 1, Bench.kept(OTHER, OLD, bytes)).set(3, Bench.DATA).map(5, 0x5005).page(opcode + "0B", Bench.DATA, 3);
+            Bench bench = new Bench().set(3, OLD).set(1, OTHER).done(opcode + "CB")
+                    .has("the rest", 3, Bench.kept(OLD, OLD + OTHER, bytes));
+            bench.has("the rest", 1, Bench.kept(OTHER, OLD, bytes)).set(3, Bench.DATA).map(5, 0x5005)
+                    .page(opcode + "0B", Bench.DATA, 3);
         }
         new Bench().set(0, 0x0203).done("0F C0 E0").has("two bytes of one register", 0, 0x0305);
     }
@@ -342,10 +351,12 @@ final class BitSentences {
             bench.store(Bench.DATA, OLD).set(0, like ^ 1).done(opcode + "0B").holds("else: memory as it was", Bench.DATA, OLD);
             bench.has("else: register 0", 0, Bench.kept(like, OLD, bytes));
             // Written in both cases: a place that may not be written is refused.
-            bench.map(5, 0x5005).set(0, like).page(opcode + "0B", Bench.DATA, 3).set(0, like ^ 1).page(opcode + "0B", Bench.DATA, 3);
+            bench.map(5, 0x5005).set(0, like).page(opcode + "0B", Bench.DATA, 3).set(0, like ^ 1)
+                    .page(opcode + "0B", Bench.DATA, 3);
             bench.set(0, OLD).done(opcode + "C8").has("e is register 0", 0, Bench.kept(OLD, OTHER, bytes));
         }
-        new Bench().set(0, 0).set(3, 1).done("0F B0 CB").has("0 less 1", Bench.FLAGS, Bench.CARRY | Bench.HALF | Bench.SIGN | Bench.PARITY);
+        new Bench().set(0, 0).set(3, 1).done("0F B0 CB")
+                .has("0 less 1", Bench.FLAGS, Bench.CARRY | Bench.HALF | Bench.SIGN | Bench.PARITY);
         new Bench().set(0, 0x0705).set(3, 9).done("0F B0 DC").has("two bytes of one register", 0, 0x0707);
     }
 
@@ -357,7 +368,8 @@ final class BitSentences {
             Bench bench = new Bench().set(Bench.FLAGS, Bench.SEVEN).set(register, 0x0102030405060788L).done(b + opcode);
             bench.has("of 4", register, 0x88070605L).set(register, 0x0102030405060788L).done(wb + opcode);
             bench.has("of 8", register, 0x8807060504030201L).refused("66" + b + opcode, Bench.UNKNOWN);
-            bench.done("66" + wb + opcode).has("of 8 with 66", register, 0x0102030405060788L).has("no flags", Bench.FLAGS, Bench.SEVEN);
+            bench.done("66" + wb + opcode).has("of 8 with 66", register, 0x0102030405060788L)
+                    .has("no flags", Bench.FLAGS, Bench.SEVEN);
         }
         new Bench().refused("66 0F C8", Bench.UNKNOWN).refused("48 66 0F CF", Bench.UNKNOWN);
     }
@@ -383,8 +395,10 @@ final class BitSentences {
         Bench bench = new Bench().set(3, Bench.DATA).set(1, 0x80000000L);
         bench.page("0F A3 0B", Bench.DATA - 0x10000000L, 0).page("0F BB 0B", Bench.DATA - 0x10000000L, 2);
         bench.set(1, 0x7FFFFFFF).page("0F A3 0B", Bench.DATA + 0xFFFFFFCL, 0).page("48 0F A3 0B", Bench.DATA + 0xFFFFFF8L, 0);
-        bench.set(1, 0x8000).page("66 0F A3 0B", Bench.DATA - 0x1000, 0).set(1, Long.MIN_VALUE).refused("48 0F A3 0B", Bench.WRONG);
-        bench.set(1, Long.MAX_VALUE).refused("48 0F A3 0B", Bench.WRONG).set(5, Bench.DATA).refused("48 0F A3 4D 00", Bench.STACK);
+        bench.set(1, 0x8000).page("66 0F A3 0B", Bench.DATA - 0x1000, 0).set(1, Long.MIN_VALUE)
+                .refused("48 0F A3 0B", Bench.WRONG);
+        bench.set(1, Long.MAX_VALUE).refused("48 0F A3 0B", Bench.WRONG).set(5, Bench.DATA)
+                .refused("48 0F A3 4D 00", Bench.STACK);
         bench.set(1, -1).page("0F A3 0B", Bench.DATA - 4, 0).page("66 0F AB 0B", Bench.DATA - 2, 2);
         // The place that is used counts, not e's own.
         bench.set(3, 0x8000).set(1, -1).done("0F A3 0B").set(1, 0).page("0F A3 0B", 0x8000, 0);
@@ -413,7 +427,8 @@ final class BitSentences {
         at = (number & 255) % (8 * bytes);
         bench.store(place, 0).store(Bench.DATA + 0x400, OLD);
         bench.done(Bench.prefix(bytes) + "0F BA" + Bench.hex(0x23 | kind << 3, 1) + Bench.hex(number, 1));
-        bench.holds("BA " + what, Bench.DATA + 0x400, changed(kind, OLD, 1L << at)).has("BA " + what, Bench.FLAGS, OLD >>> at & 1);
+        bench.holds("BA " + what, Bench.DATA + 0x400, changed(kind, OLD, 1L << at))
+                .has("BA " + what, Bench.FLAGS, OLD >>> at & 1);
     }
 
     private static void flagsOfSingleBits() {
@@ -442,17 +457,21 @@ final class BitSentences {
                     for (int open : new int[] {0, -1}) {
                         Bench bench = new Bench().set(3, beyond | 1L << low | 1L << high).set(1, OLD).set(Bench.UNDEFINED, open);
                         int flags = open & Bench.SIX & ~Bench.ZERO | ~open & Bench.DOWN;
-                        bench.set(Bench.FLAGS, ~open | Bench.ZERO).done(prefix + "0F BC CB").has("lowest", 1, Bench.kept(OLD, low, bytes));
-                        bench.has("lowest", Bench.FLAGS, flags).set(1, OLD).set(Bench.FLAGS, ~open | Bench.ZERO).done(prefix + "0F BD CB");
+                        bench.set(Bench.FLAGS, ~open | Bench.ZERO).done(prefix + "0F BC CB")
+                                .has("lowest", 1, Bench.kept(OLD, low, bytes));
+                        bench.has("lowest", Bench.FLAGS, flags).set(1, OLD).set(Bench.FLAGS, ~open | Bench.ZERO)
+                                .done(prefix + "0F BD CB");
                         bench.has("highest", 1, Bench.kept(OLD, high, bytes)).has("highest", Bench.FLAGS, flags);
                     }
                 }
             }
             for (int open : new int[] {0, -1}) {
-                Bench bench = new Bench().set(3, beyond).set(1, OLD).set(Bench.UNDEFINED, open).set(Bench.FLAGS, ~open & ~Bench.ZERO);
+                Bench bench = new Bench().set(3, beyond).set(1, OLD).set(Bench.UNDEFINED, open)
+                        .set(Bench.FLAGS, ~open & ~Bench.ZERO);
                 int flags = open & Bench.SIX | Bench.ZERO | ~open & Bench.DOWN;
                 bench.done(prefix + "0F BC CB").has("without one", 1, OLD).has("without one", Bench.FLAGS, flags);
-                bench.set(Bench.FLAGS, ~open & ~Bench.ZERO).done(prefix + "0F BD CB").has("without one", 1, OLD).has("without one", Bench.FLAGS, flags);
+                bench.set(Bench.FLAGS, ~open & ~Bench.ZERO).done(prefix + "0F BD CB").has("without one", 1, OLD)
+                        .has("without one", Bench.FLAGS, flags);
             }
             new Bench().set(3, 0x9000).page(prefix + "0F BC 0B", 0x9000, 0).page(prefix + "0F BD 0B", 0x9000, 0);
         }

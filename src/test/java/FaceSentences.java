@@ -47,7 +47,8 @@ final class FaceSentences {
         bench.holds("the stack", 0x57F8, 0xC4434241L).has("the stack's", 4, 0x5800).has("what was popped", 2, 0xC4434241L);
         bench.has("the place after the call", 1, Bench.CODE + 0x15).has("the flags of the call", 0, Bench.DOWN | 2);
         bench.has("the difference", 11, 0xC4430000L).has("its flags", Bench.FLAGS, Bench.DOWN | Bench.ZERO | Bench.PARITY);
-        bench.has("what the system read", 6, bench.core.stored(0x7000)).has("FAULT", Bench.FAULT, 0x7000).has("the CODE", Bench.FAULT_CODE, 5);
+        bench.has("what the system read", 6, bench.core.stored(0x7000)).has("FAULT", Bench.FAULT, 0x7000)
+                .has("the CODE", Bench.FAULT_CODE, 5);
         bench.stays("again", Bench.PAGE);
     }
 

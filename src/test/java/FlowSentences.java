@@ -1,8 +1,5 @@
-/** Tests of the sentences about jumps, the stack, strings and the calls of the system. */
+/** Tests of the sentences about jumps, the stack and the calls of the system. */
 final class FlowSentences {
-    private static final int[] SIZES = {1, 2, 4, 8};
-    private static final int FROM = Bench.DATA + 0x100;
-    private static final int TO = Bench.DATA + 0x200;
     private static final long OLD = 0xFFEEDDCCBBAA9988L;
     private static final long OTHER = 0x1122334455667711L;
 
@@ -25,15 +22,6 @@ final class FlowSentences {
         Sentences.test("C9: the stack's register becomes the frame's, POP of the frame's.", FlowSentences::leave);
         Sentences.test("Jumps, calls, C2, C3, C9 with 66: UNKNOWN.", FlowSentences::shortened);
         Sentences.test("9C PUSH of the flags and 2; 9D POP of them: these seven.", FlowSentences::flagsOnTheStack);
-        Sentences.test("STRINGS b, v: A4, A5 MOVS: what is at SOURCE goes to GOAL (SOURCE is looked up first); A6, A7 CMPS: CMP of "
-                + "what is at SOURCE with what is at GOAL; AA, AB STOS: register 0 goes to GOAL; AC, AD LODS: SOURCE to register "
-                + "0; AE, AF SCAS: CMP of register 0 with what is at GOAL.", FlowSentences::strings);
-        Sentences.test("(GOAL isn't of the stack.)", FlowSentences::wrongStrings);
-        Sentences.test("Then each place that was used becomes as many bytes more, with DOWN less.", FlowSentences::farther);
-        Sentences.test("With F2 or F3: if register 1 is 0, nothing; else it is done once, register 1 is 1 less, and NEXT stays at the "
-                + "instruction, unless register 1 is 0 then, or, with CMPS and SCAS, ZERO isn't set (F3), is (F2).",
-                FlowSentences::repeated);
-        Sentences.test("F2, F3 mean nothing elsewhere.", FlowSentences::notRepeated);
         Sentences.test("0F 05: register 1 becomes the next place, 11 the flags and 2; NEXT is ENTRY; flags that are in MASK are "
                 + "cleared; the level is 0.", FlowSentences::systemCalls);
         Sentences.test("0F 07: at level 3 WRONG; NEXT is register 1 (at a wrong place: WRONG), the flags those of register 11, the "
@@ -45,18 +33,21 @@ final class FlowSentences {
             String bytes = Bench.hex(number, 1);
             Bench bench = new Bench().set(Bench.FLAGS, Bench.SEVEN & ~Bench.OVER).goes("EB" + bytes, Bench.CODE + 2 + number);
             bench.goes("48 EB" + bytes, Bench.CODE + 3 + number).goes("72" + bytes, Bench.CODE + 2 + number);
-            bench.goes("73" + bytes, Bench.CODE + 2).goes("F3 74" + bytes, Bench.CODE + 3 + number).goes("7D" + bytes, Bench.CODE + 2);
+            bench.goes("73" + bytes, Bench.CODE + 2).goes("F3 74" + bytes, Bench.CODE + 3 + number)
+                    .goes("7D" + bytes, Bench.CODE + 2);
             bench.has("no flags", Bench.FLAGS, Bench.SEVEN & ~Bench.OVER).has("no stack", 4, Bench.TOP);
         }
         for (int number : new int[] {0, 128, 255, -1, -129, Integer.MAX_VALUE, Integer.MIN_VALUE}) {
             String bytes = Bench.hex(number, 4);
             Bench bench = new Bench().set(Bench.FLAGS, Bench.SIX).goes("E9" + bytes, Bench.CODE + 5L + number);
             bench.goes("48 E9" + bytes, Bench.CODE + 6L + number).goes("0F 82" + bytes, Bench.CODE + 6L + number);
-            bench.goes("0F 83" + bytes, Bench.CODE + 6).goes("0F 80" + bytes, Bench.CODE + 6L + number).goes("0F 8C" + bytes, Bench.CODE + 6);
+            bench.goes("0F 83" + bytes, Bench.CODE + 6).goes("0F 80" + bytes, Bench.CODE + 6L + number)
+                    .goes("0F 8C" + bytes, Bench.CODE + 6);
         }
         // Where it goes to need not be there.
         new Bench().goes("E9 00100000", 0x7005).goes("E9 00200000", 0x8005).pageHere("but the next step", 0x8005, 16);
-        Bench bench = new Bench().ends().at(0x7FFE, -2, "EB 05").goesOn("around the end", 5).at(0x5000, 0, "EB FD").goesOn("back", -1);
+        Bench bench = new Bench().ends().at(0x7FFE, -2, "EB 05").goesOn("around the end", 5).at(0x5000, 0, "EB FD")
+                .goesOn("back", -1);
     }
 
     private static void loops() {
@@ -85,10 +76,12 @@ final class FlowSentences {
             Bench bench = new Bench().set(9, place).set(3, Bench.DATA).store(Bench.DATA, place).goes("41 FF E1", place);
             bench.goes("FF 23", place).goes("48 FF 23", place).goes("F3 FF 23", place).has("no stack", 4, Bench.TOP);
         }
-        Bench bench = new Bench().set(3, 0x7FF8).store(0x7FF8, 0x1234).goes("FF 23", 0x1234).set(3, 0x7FFC).page("FF 23", 0x8000, 0);
+        Bench bench = new Bench().set(3, 0x7FF8).store(0x7FF8, 0x1234).goes("FF 23", 0x1234).set(3, 0x7FFC)
+                .page("FF 23", 0x8000, 0);
         bench.set(3, 0x7FF9).page("FF 23", 0x8000, 0).set(3, Bench.FIRST_WRONG).refused("FF 23", Bench.WRONG);
         bench.set(5, Bench.FIRST_WRONG).refused("FF 65 00", Bench.STACK).map(5, 0x5005).set(3, Bench.DATA).goes("FF 23", 0);
-        bench.set(0, Bench.FIRST_WRONG).refused("FF E0", Bench.WRONG).refused("FF E8", Bench.UNKNOWN).refused("FF 2B", Bench.UNKNOWN);
+        bench.set(0, Bench.FIRST_WRONG).refused("FF E0", Bench.WRONG).refused("FF E8", Bench.UNKNOWN)
+                .refused("FF 2B", Bench.UNKNOWN);
     }
 
     private static void pushAndPop() {
@@ -96,9 +89,12 @@ final class FlowSentences {
         int[] sizes = {8, 2, 8, 8, 8, 2, 2};
         for (int i = 0; i < prefixes.length; i++) {
             int bytes = sizes[i];
-            Bench bench = new Bench().set(0, OLD).store(Bench.TOP - 16, OTHER).store(Bench.TOP - 8, OTHER).store(Bench.TOP, OTHER);
-            bench.done(prefixes[i] + "50").has("PUSH", 4, Bench.TOP - bytes).holds("there", Bench.TOP - bytes, bytes == 8 ? OLD : Bench.kept(OTHER << 16, OLD, 2));
-            bench.holds("above", Bench.TOP, OTHER).holds("below", Bench.TOP - bytes - 8, bytes == 8 ? OTHER : OTHER << 16 | OTHER >>> 48);
+            Bench bench = new Bench().set(0, OLD).store(Bench.TOP - 16, OTHER).store(Bench.TOP - 8, OTHER)
+                    .store(Bench.TOP, OTHER);
+            bench.done(prefixes[i] + "50").has("PUSH", 4, Bench.TOP - bytes)
+                    .holds("there", Bench.TOP - bytes, bytes == 8 ? OLD : Bench.kept(OTHER << 16, OLD, 2));
+            bench.holds("above", Bench.TOP, OTHER)
+                    .holds("below", Bench.TOP - bytes - 8, bytes == 8 ? OTHER : OTHER << 16 | OTHER >>> 48);
             bench.set(3, OTHER).done(prefixes[i] + "5B").has("POP", 4, Bench.TOP).has("taken", 3, Bench.kept(OTHER, OLD, bytes));
             // The last bytes of a page, and one too few.
             bench.set(4, 0x5000 + bytes).done(prefixes[i] + "50").has("the page's first", 4, 0x5000);
@@ -106,8 +102,10 @@ final class FlowSentences {
             bench.done(prefixes[i] + "5B").has("the page's last", 4, 0x8000).page(prefixes[i] + "5B", 0x8000, 0);
             bench.set(4, 0x8000 - bytes + 1).page(prefixes[i] + "5B", 0x8000, 0);
             bench.set(4, 0).page(prefixes[i] + "50", -bytes, 2).ends().done(prefixes[i] + "50").has("PUSH from 0", 4, -bytes);
-            bench.done(prefixes[i] + "5B").has("POP to 0", 4, 0).map(7, 0x7005).set(4, Bench.TOP).page(prefixes[i] + "50", Bench.TOP - bytes, 3);
-            bench.done(prefixes[i] + "5B").has("POP of what may not be written", 4, Bench.TOP + bytes).has("no flags", Bench.FLAGS, 0);
+            bench.done(prefixes[i] + "5B").has("POP to 0", 4, 0).map(7, 0x7005).set(4, Bench.TOP)
+                    .page(prefixes[i] + "50", Bench.TOP - bytes, 3);
+            bench.done(prefixes[i] + "5B").has("POP of what may not be written", 4, Bench.TOP + bytes)
+                    .has("no flags", Bench.FLAGS, 0);
         }
     }
 
@@ -120,29 +118,42 @@ final class FlowSentences {
             bench.has("the stack's", 4, register == 4 ? OTHER : Bench.TOP);
         }
         Bench bench = new Bench().done("68 00000080").holds("68", Bench.TOP - 8, 0xFFFFFFFF80000000L);
-        bench.done("68 FFFFFF7F").holds("68", Bench.TOP - 16, 0x7FFFFFFFL).done("48 68 00000080").holds("68", Bench.TOP - 24, 0xFFFFFFFF80000000L);
-        bench.set(4, Bench.TOP).store(Bench.TOP - 8, 0).done("66 68 0080").holds("66 68", Bench.TOP - 8, 0x8000L << 48).has("66 68", 4, Bench.TOP - 2);
+        bench.done("68 FFFFFF7F").holds("68", Bench.TOP - 16, 0x7FFFFFFFL).done("48 68 00000080")
+                .holds("68", Bench.TOP - 24, 0xFFFFFFFF80000000L);
+        bench.set(4, Bench.TOP).store(Bench.TOP - 8, 0).done("66 68 0080").holds("66 68", Bench.TOP - 8, 0x8000L << 48)
+                .has("66 68", 4, Bench.TOP - 2);
         bench.set(4, Bench.TOP).done("66 48 68 00000080").holds("66 48 68", Bench.TOP - 8, 0xFFFFFFFF80000000L);
         bench.set(4, Bench.TOP).done("6A 80").holds("6A", Bench.TOP - 8, -128).done("6A 7F").holds("6A", Bench.TOP - 16, 127);
         bench.set(4, Bench.TOP).store(Bench.TOP - 8, 0).done("66 6A 80").holds("66 6A", Bench.TOP - 8, 0xFF80L << 48);
-        bench.set(4, Bench.TOP).done("FF F4").holds("FF 6 of the stack's", Bench.TOP - 8, Bench.TOP).set(3, Bench.DATA).store(Bench.DATA, OLD);
-        bench.set(4, Bench.TOP).done("FF 33").holds("FF 6", Bench.TOP - 8, OLD).store(Bench.TOP - 8, 0).set(4, Bench.TOP).done("66 FF 33");
+        bench.set(4, Bench.TOP).done("FF F4").holds("FF 6 of the stack's", Bench.TOP - 8, Bench.TOP).set(3, Bench.DATA)
+                .store(Bench.DATA, OLD);
+        bench.set(4, Bench.TOP).done("FF 33").holds("FF 6", Bench.TOP - 8, OLD).store(Bench.TOP - 8, 0).set(4, Bench.TOP)
+                .done("66 FF 33");
         bench.holds("66 FF 6", Bench.TOP - 8, OLD << 48).set(4, Bench.TOP).store(Bench.TOP, OTHER).done("FF 34 24");
-        bench.holds("FF 6 by the stack's as it is before", Bench.TOP - 8, OTHER).set(4, Bench.TOP).done("66 54").holds("66 54", Bench.TOP - 2, OTHER << 16 | Bench.TOP);
+        bench.holds("FF 6 by the stack's as it is before", Bench.TOP - 8, OTHER).set(4, Bench.TOP).done("66 54")
+                .holds("66 54", Bench.TOP - 2, OTHER << 16 | Bench.TOP);
+        bench.set(3, 0x7FFE).done("66 FF 33").page("FF 33", 0x8000, 0);
         popped();
     }
 
     private static void popped() {
-        Bench bench = new Bench().store(Bench.TOP, OTHER).set(3, Bench.DATA).done("8F 03").holds("8F", Bench.DATA, OTHER).has("8F", 4, Bench.TOP + 8);
-        bench.set(4, Bench.TOP).store(Bench.DATA, OLD).done("66 8F 03").holds("66 8F", Bench.DATA, Bench.kept(OLD, OTHER, 2)).has("66 8F", 4, Bench.TOP + 2);
-        bench.set(4, Bench.TOP).done("8F C1").has("8F of a register", 1, OTHER).set(4, Bench.TOP).done("8F C4").has("8F of the stack's", 4, OTHER);
-        bench.set(4, Bench.TOP).done("8F 04 24").holds("its place by the stack's then", Bench.TOP + 8, OTHER).has("8F", 4, Bench.TOP + 8);
-        bench.set(4, Bench.TOP).done("8F 44 24 F8").holds("where it was", Bench.TOP, OTHER).set(4, Bench.TOP).done("66 8F 44 24 20");
+        Bench bench = new Bench().store(Bench.TOP, OTHER).set(3, Bench.DATA).done("8F 03").holds("8F", Bench.DATA, OTHER)
+                .has("8F", 4, Bench.TOP + 8);
+        bench.set(4, Bench.TOP).store(Bench.DATA, OLD).done("66 8F 03").holds("66 8F", Bench.DATA, Bench.kept(OLD, OTHER, 2))
+                .has("66 8F", 4, Bench.TOP + 2);
+        bench.set(4, Bench.TOP).done("8F C1").has("8F of a register", 1, OTHER).set(4, Bench.TOP).done("8F C4")
+                .has("8F of the stack's", 4, OTHER);
+        bench.set(4, Bench.TOP).done("8F 04 24").holds("its place by the stack's then", Bench.TOP + 8, OTHER)
+                .has("8F", 4, Bench.TOP + 8);
+        bench.set(4, Bench.TOP).done("8F 44 24 F8").holds("where it was", Bench.TOP, OTHER).set(4, Bench.TOP)
+                .done("66 8F 44 24 20");
         bench.holds("2 more then", Bench.TOP + 34, OTHER & 0xFFFF).set(4, Bench.TOP).set(12, Bench.DATA).done("41 8F 44 24 30");
-        bench.holds("register 12 stays", Bench.DATA + 48, OTHER).set(4, 0x7FF8).page("8F 04 24", 0x8000, 2).page("8F 44 24 FC", 0x8000, 2);
+        bench.holds("register 12 stays", Bench.DATA + 48, OTHER).set(4, 0x7FF8).page("8F 04 24", 0x8000, 2)
+                .page("8F 44 24 FC", 0x8000, 2);
         bench.set(4, 0x7FF8).done("8F 44 24 F8").has("no more than it needs", 4, 0x8000);
         for (int reg = 1; reg < 8; reg++) {
-            bench.refused("8F" + Bench.hex(0xC0 | reg << 3, 1), Bench.UNKNOWN).refused("8F" + Bench.hex(0x03 | reg << 3, 1), Bench.UNKNOWN);
+            bench.refused("8F" + Bench.hex(0xC0 | reg << 3, 1), Bench.UNKNOWN)
+                    .refused("8F" + Bench.hex(0x03 | reg << 3, 1), Bench.UNKNOWN);
         }
         // POP of 2 to the stack's own register: it is 2 more before it gets the 2 bytes.
         bench = new Bench().map(0x1F, 0x5007).store(0x5FF8, 0x9999L << 48).set(4, 0x1FFFE).done("66 5C").has("66 5C", 4, 0x29999);
@@ -161,7 +172,8 @@ final class FlowSentences {
             bench.holds("by the stack's as it is before", Bench.TOP - 8, Bench.CODE + 3);
         }
         Bench bench = new Bench().goes("FF D4", Bench.TOP).holds("the stack's own", Bench.TOP - 8, Bench.CODE + 2);
-        bench.set(3, 0x7FFC).page("FF 13", 0x8000, 0).set(4, 0x5007).set(0, 0).page("FF D0", 0x4FFF, 2).page("E8 00000000", 0x4FFF, 2);
+        bench.set(3, 0x7FFC).page("FF 13", 0x8000, 0).set(4, 0x5007).set(0, 0).page("FF D0", 0x4FFF, 2)
+                .page("E8 00000000", 0x4FFF, 2);
         bench.set(4, 0x5008).goes("FF D0", 0).has("the page's first", 4, 0x5000);
         // The next place may be a wrong one: it is pushed, not jumped to.
         bench.ends().set(4, Bench.TOP).at(0x7FFE, Bench.FIRST_WRONG - 2, "FF D0").goesOn("at the end", 0);
@@ -175,22 +187,29 @@ final class FlowSentences {
             for (int more : new int[] {0, 1, 8, 0x7FFF, 0x8000, 0xFFFF}) {
                 bench.set(4, Bench.TOP).goes("C2" + Bench.hex(more, 2), place).has("C2", 4, Bench.TOP + 8 + more);
             }
-            bench.set(4, Bench.TOP).goes("48 C3", place).set(4, Bench.TOP).goes("F3 C3", place).has("C3 with prefixes", 4, Bench.TOP + 8);
+            bench.set(4, Bench.TOP).goes("48 C3", place).set(4, Bench.TOP).goes("F3 C3", place)
+                    .has("C3 with prefixes", 4, Bench.TOP + 8);
         }
         Bench bench = new Bench().store(Bench.TOP, Bench.FIRST_WRONG).refused("C3", Bench.WRONG).refused("C2 0000", Bench.WRONG);
         bench.store(0x7FF8, 0x5005).set(4, 0x7FF8).goes("C3", 0x5005).has("the page's last", 4, 0x8000).page("C3", 0x8000, 0);
-        bench.set(4, 0x7FF9).page("C3", 0x8000, 0).page("C2 0000", 0x8000, 0).set(4, Bench.FIRST_WRONG).refused("C2 0000", Bench.STACK);
-        bench.ends().set(4, -8).goes("C2 0500", 0x5005).has("around the end", 4, 5).map(7, 0x7005).set(4, 0x7FF8).goes("C3", 0x5005);
+        bench.set(4, 0x7FF9).page("C3", 0x8000, 0).page("C2 0000", 0x8000, 0).set(4, Bench.FIRST_WRONG)
+                .refused("C2 0000", Bench.STACK);
+        bench.ends().set(4, -8).goes("C2 0500", 0x5005).has("around the end", 4, 5).map(7, 0x7005).set(4, 0x7FF8)
+                .goes("C3", 0x5005);
         bench.has("no flags", Bench.FLAGS, 0);
     }
 
     private static void leave() {
         Bench bench = new Bench().set(5, Bench.DATA).store(Bench.DATA, OLD).set(4, Bench.FIRST_WRONG);
-        bench.done("C9").has("the frame's", 5, OLD).has("the stack's", 4, Bench.DATA + 8).set(5, Bench.DATA).done("48 C9").has("with W", 5, OLD);
+        bench.done("C9").has("the frame's", 5, OLD).has("the stack's", 4, Bench.DATA + 8).set(5, Bench.DATA).done("48 C9")
+                .has("with W", 5, OLD);
         bench.set(5, 0x7FF8).store(0x7FF8, 1).done("C9").has("the page's last", 4, 0x8000).has("the page's last", 5, 1);
-        bench.set(5, 0x7FF9).page("C9", 0x8000, 0).set(5, 0x9000).page("C9", 0x9000, 0).set(5, Bench.FIRST_WRONG).refused("C9", Bench.STACK);
-        bench.ends().set(5, -8).done("C9").has("around the end", 4, 0).set(5, Bench.FIRST_WRONG - 8).done("C9").has("up to a wrong place", 4, Bench.FIRST_WRONG);
-        bench.set(5, Bench.FIRST_WRONG - 7).refused("C9", Bench.STACK).map(7, 0x7005).set(5, 0x7FF8).done("C9").has("no flags", Bench.FLAGS, 0);
+        bench.set(5, 0x7FF9).page("C9", 0x8000, 0).set(5, 0x9000).page("C9", 0x9000, 0).set(5, Bench.FIRST_WRONG)
+                .refused("C9", Bench.STACK);
+        bench.ends().set(5, -8).done("C9").has("around the end", 4, 0).set(5, Bench.FIRST_WRONG - 8).done("C9")
+                .has("up to a wrong place", 4, Bench.FIRST_WRONG);
+        bench.set(5, Bench.FIRST_WRONG - 7).refused("C9", Bench.STACK).map(7, 0x7005).set(5, 0x7FF8).done("C9")
+                .has("no flags", Bench.FLAGS, 0);
     }
 
     private static void shortened() {
@@ -217,172 +236,40 @@ final class FlowSentences {
     private static void flagsOnTheStack() {
         for (int flags : new int[] {0, Bench.SEVEN, 1, 4, 16, 64, 128, 1024, 2048}) {
             Bench bench = new Bench().set(Bench.FLAGS, flags).store(Bench.TOP - 8, -1).done("9C").has("9C", 4, Bench.TOP - 8);
-            bench.holds("9C", Bench.TOP - 8, flags | 2).has("they stay", Bench.FLAGS, flags).set(4, Bench.TOP).store(Bench.TOP - 8, -1);
-            bench.done("66 9C").has("66 9C", 4, Bench.TOP - 2).holds("66 9C", Bench.TOP - 8, 0xFFFFFFFFFFFFL | (long) (flags | 2) << 48);
+            bench.holds("9C", Bench.TOP - 8, flags | 2).has("they stay", Bench.FLAGS, flags).set(4, Bench.TOP)
+                    .store(Bench.TOP - 8, -1);
+            bench.done("66 9C").has("66 9C", 4, Bench.TOP - 2)
+                    .holds("66 9C", Bench.TOP - 8, 0xFFFFFFFFFFFFL | (long) (flags | 2) << 48);
             bench.set(4, Bench.TOP).store(Bench.TOP, flags).set(Bench.FLAGS, Bench.SEVEN & ~flags).set(Bench.UNDEFINED, -1);
-            bench.done("9D").has("9D", Bench.FLAGS, flags).has("9D", 4, Bench.TOP + 8).store(Bench.TOP, flags | ~(long) Bench.SEVEN);
+            bench.done("9D").has("9D", Bench.FLAGS, flags).has("9D", 4, Bench.TOP + 8)
+                    .store(Bench.TOP, flags | ~(long) Bench.SEVEN);
             bench.set(4, Bench.TOP).set(Bench.FLAGS, 0).done("9D").has("these seven alone", Bench.FLAGS, flags).set(4, Bench.TOP);
             bench.set(Bench.FLAGS, 0).done("66 9D").has("66 9D", Bench.FLAGS, flags).has("66 9D", 4, Bench.TOP + 2);
         }
-        Bench bench = new Bench().set(4, 0x8000).page("9D", 0x8000, 0).set(4, 0x5007).page("9C", 0x4FFF, 2).set(4, Bench.FIRST_WRONG + 8);
+        Bench bench = new Bench().set(4, 0x8000).page("9D", 0x8000, 0).set(4, 0x5007).page("9C", 0x4FFF, 2)
+                .set(4, Bench.FIRST_WRONG + 8);
         bench.refused("9C", Bench.STACK).refused("9D", Bench.STACK);
         bench.core.level(true);
         bench.set(4, Bench.TOP).store(Bench.TOP, -1).done("9D").has("at level 3", Bench.FLAGS, Bench.SEVEN).done("9C");
-    }
-
-    private static String sized(int bytes, int opcode) {
-        return Bench.prefix(bytes) + Bench.hex(opcode + (bytes == 1 ? 0 : 1), 1);
-    }
-
-    private static Bench withStrings(int flags) {
-        return new Bench().store(FROM, OLD).store(TO, OTHER).set(6, FROM).set(7, TO).set(0, 0x8000000080008080L).set(1, 9).set(Bench.FLAGS, flags);
-    }
-
-    private static void strings() {
-        long a = 0x8000000080008080L;
-        for (int bytes : SIZES) {
-            long mask = Bench.mask(bytes);
-            withStrings(Bench.SIX).done(sized(bytes, 0xA4)).holds("MOVS", TO, OTHER & ~mask | OLD & mask).holds("MOVS", FROM, OLD)
-                    .has("MOVS", 0, a).has("no flags", Bench.FLAGS, Bench.SIX).has("register 1", 1, 9);
-            withStrings(Bench.SIX).done(sized(bytes, 0xA6)).has("CMPS", Bench.FLAGS, SumTest.sumFlags(true, OLD, OTHER, 0, bytes))
-                    .holds("CMPS", TO, OTHER).holds("CMPS", FROM, OLD).has("CMPS", 0, a);
-            withStrings(Bench.SIX).done(sized(bytes, 0xAA)).holds("STOS", TO, OTHER & ~mask | a & mask).has("no flags", Bench.FLAGS, Bench.SIX);
-            withStrings(Bench.SIX).done(sized(bytes, 0xAC)).has("LODS", 0, Bench.kept(a, OLD, bytes)).has("no flags", Bench.FLAGS, Bench.SIX);
-            withStrings(Bench.SIX).done(sized(bytes, 0xAE)).has("SCAS", Bench.FLAGS, SumTest.sumFlags(true, a, OTHER, 0, bytes))
-                    .has("SCAS", 0, a).holds("SCAS", TO, OTHER);
-            withStrings(0).set(7, FROM).done(sized(bytes, 0xA6)).has("alike", Bench.FLAGS, Bench.ZERO | Bench.PARITY);
-            Bench bench = withStrings(0).set(6, 0x9100).set(7, 0xA200);
-            bench.page(sized(bytes, 0xA4), 0x9100, 0).page(sized(bytes, 0xA6), 0x9100, 0).page(sized(bytes, 0xAC), 0x9100, 0);
-            bench.page(sized(bytes, 0xAA), 0xA200, 2).page(sized(bytes, 0xAE), 0xA200, 0).set(6, FROM);
-            bench.page(sized(bytes, 0xA4), 0xA200, 2).page(sized(bytes, 0xA6), 0xA200, 0).done(sized(bytes, 0xAC));
-            bench.map(5, 0x5005).set(6, FROM).set(7, TO).page(sized(bytes, 0xA4), TO, 3).page(sized(bytes, 0xAA), TO, 3);
-            bench.done(sized(bytes, 0xA6)).done(sized(bytes, 0xAC)).done(sized(bytes, 0xAE));
-            if (bytes > 1) {
-                bench.map(5, 0x5007).set(6, 0x7FFF).set(7, TO).page(sized(bytes, 0xA4), 0x8000, 0).set(6, FROM).set(7, 0x7FFF);
-                bench.page(sized(bytes, 0xA4), 0x8000, 2).page(sized(bytes, 0xAA), 0x8000, 2).page(sized(bytes, 0xAE), 0x8000, 0);
-            }
-        }
-        // All is read before one byte is written, though the two lie over one another.
-        withStrings(0).set(7, FROM + 1).done("48 A5").holds("MOVS over itself", FROM + 1, OLD);
-    }
-
-    private static void wrongStrings() {
-        String[] texts = {"A4", "A5", "A6", "A7", "AA", "AB", "AE", "AF", "48 A5", "66 AB", "F3 A4", "F2 AF"};
-        for (String text : texts) {
-            withStrings(0).set(7, Bench.FIRST_WRONG).refused(text, Bench.WRONG);
-            withStrings(0).set(7, Bench.UPPER_HALF - 1).set(4, Bench.FIRST_WRONG).set(5, Bench.FIRST_WRONG).refused(text, Bench.WRONG);
-        }
-        for (String text : new String[] {"A4", "A5", "A6", "A7", "AC", "AD", "F3 AD"}) {
-            withStrings(0).set(6, Bench.FIRST_WRONG).refused(text, Bench.WRONG);
-        }
-        withStrings(0).ends().set(7, Bench.FIRST_WRONG - 4).refused("48 AB", Bench.WRONG).done("AB").refused("AB", Bench.WRONG);
-    }
-
-    private static void farther() {
-        int[] kinds = {0xA4, 0xA6, 0xAA, 0xAC, 0xAE};
-        for (int kind : kinds) {
-            boolean source = kind == 0xA4 || kind == 0xA6 || kind == 0xAC;
-            boolean goal = kind != 0xAC;
-            for (int bytes : SIZES) {
-                for (int down = 0; down < 2; down++) {
-                    int more = down == 1 ? -bytes : bytes;
-                    int flags = down * Bench.DOWN;
-                    Bench bench = withStrings(flags).done(sized(bytes, kind));
-                    bench.has("SOURCE", 6, source ? FROM + more : FROM).has("GOAL", 7, goal ? TO + more : TO).has("register 1", 1, 9);
-                    Bench.due("DOWN stays", bench.get(Bench.FLAGS) & Bench.DOWN, flags);
-                    bench = withStrings(flags).code("F3" + sized(bytes, kind));
-                    bench.core.step();
-                    bench.has("SOURCE", 6, source ? FROM + more : FROM).has("GOAL", 7, goal ? TO + more : TO);
-                }
-                Bench bench = withStrings(0).ends().set(6, -bytes).set(7, Bench.FIRST_WRONG - bytes).done(sized(bytes, kind));
-                bench.has("around the end", 6, source ? 0 : -bytes).has("to a wrong place", 7, goal ? Bench.FIRST_WRONG : Bench.FIRST_WRONG - bytes);
-                bench.set(6, 0).set(7, Bench.UPPER_HALF).set(Bench.FLAGS, Bench.DOWN).done(sized(bytes, kind));
-                bench.has("back around", 6, source ? -bytes : 0).has("back to a wrong place", 7, goal ? Bench.UPPER_HALF - bytes : Bench.UPPER_HALF);
-            }
-        }
-        withStrings(0).set(7, FROM).set(6, FROM).done("A4").has("both", 6, FROM + 1).has("both", 7, FROM + 1);
-    }
-
-    private static void repeated() {
-        for (String prefix : new String[] {"F2", "F3"}) {
-            for (int kind : new int[] {0xA4, 0xA6, 0xAA, 0xAC, 0xAE}) {
-                for (int bytes : SIZES) {
-                    String text = prefix + sized(bytes, kind);
-                    // Nothing at all, though both places are wrong.
-                    Bench bench = withStrings(Bench.SEVEN).set(1, 0).set(6, Bench.FIRST_WRONG).set(7, Bench.FIRST_WRONG).code(text);
-                    bench.done(text).has("nothing", 6, Bench.FIRST_WRONG).has("nothing", 7, Bench.FIRST_WRONG).has("nothing", 1, 0);
-                    bench.has("nothing", 0, 0x8000000080008080L).has("nothing", Bench.FLAGS, Bench.SEVEN).holds("nothing", TO, OTHER);
-                    // The last time, whatever ZERO is then.
-                    withStrings(0).set(1, 1).done(text).has("the last time", 1, 0);
-                    withStrings(0).set(1, 1).set(7, FROM).set(0, OLD).done(text).has("the last time", 1, 0);
-                    onceMore(prefix, kind, bytes);
-                }
-            }
-        }
-        Bench bench = withStrings(0).set(7, 0x7FFE).set(1, 5).code("F3 AA");
-        Bench.due("until it is refused", bench.core.run(9), 2);
-        bench.has("register 1", 1, 3).has("GOAL", 7, 0x8000).has("NEXT", Bench.NEXT, Bench.CODE).has("FAULT", Bench.FAULT, 0x8000);
-        bench = withStrings(0).set(1, 1000).code("F3 AA");
-        Bench.due("1000 times", bench.core.run(1000), 1000);
-        bench.has("1000 times", 1, 0).has("1000 times", 7, TO + 1000).has("1000 times", Bench.NEXT, Bench.CODE + 2);
-    }
-
-    private static void onceMore(String prefix, int kind, int bytes) {
-        boolean compares = kind == 0xA6 || kind == 0xAE;
-        String text = prefix + sized(bytes, kind);
-        for (long count : new long[] {2, 0x100000001L, -1, 0x100000000L}) {
-            for (int alike = 0; alike < 2; alike++) {
-                boolean stays = !compares || alike == 1 == prefix.equals("F3");
-                Bench bench = withStrings(alike == 1 ? 0 : Bench.ZERO).set(1, count);
-                if (alike == 1) {
-                    bench.store(TO, OLD).set(0, OLD);
-                }
-                bench.goes(text, stays ? Bench.CODE : Bench.CODE + text.length() / 2).has(text, 1, count - 1);
-            }
-        }
-        // ZERO as it was before is no matter.
-        if (!compares) {
-            withStrings(Bench.ZERO).goes(text, Bench.CODE).has(text, 1, 8);
-            withStrings(0).goes(text, Bench.CODE).has(text, 1, 8);
-        }
-    }
-
-    private static void notRepeated() {
-        String[] texts = {"90", "48 FF C3", "B8 01000000", "50", "58", "0F BC CB", "0F BD CB", "01 CB", "C1 E3 02", "F7 E3", "89 0F", "8B 0F",
-            "0F B6 CB", "C9", "9C", "9D", "86 CB", "0F A3 CB", "0F C1 CB", "99", "F5", "FD", "8D 03", "6A 05", "0F AF CB", "0F 44 CB", "63 CB"};
-        for (String prefix : new String[] {"F2", "F3", "F2 F3"}) {
-            for (long count : new long[] {0, 5}) {
-                for (String text : texts) {
-                    Bench with = withStrings(Bench.CARRY).set(1, count).set(3, 0x48).set(5, Bench.TOP).done(prefix + text);
-                    Bench without = withStrings(Bench.CARRY).set(1, count).set(3, 0x48).set(5, Bench.TOP).done(text);
-                    for (int register = 0; register <= 24; register++) {
-                        if (register != Bench.NEXT) {
-                            with.has(prefix + text, register, without.get(register));
-                        }
-                    }
-                    with.holds(prefix + text, Bench.TOP - 8, without.core.stored(Bench.TOP - 8)).holds(prefix + text, TO, without.core.stored(TO));
-                }
-                Bench bench = withStrings(0).set(1, count).goes(prefix + "EB 10", Bench.CODE + 0x12 + prefix.replace(" ", "").length() / 2);
-                bench.refused(prefix + "0F B8 CB", Bench.UNKNOWN).refused(prefix + "06", Bench.UNKNOWN).refused(prefix + "0F 10 C0", Bench.UNKNOWN);
-                bench.set(1, 1).goes(prefix + "E2 10", Bench.CODE + 2 + prefix.replace(" ", "").length() / 2).has("E2", 1, 0);
-            }
-        }
     }
 
     private static void systemCalls() {
         for (int user = 0; user < 2; user++) {
             for (long mask : new long[] {0, -1, 0x441, 0xFFFFFFFF00000000L, 2, Bench.DOWN, Bench.OVER, Bench.CARRY}) {
                 for (int flags : new int[] {0, Bench.SEVEN}) {
-                    Bench bench = new Bench().set(Bench.ENTRY, 0x123456789AL).set(Bench.MASK, mask).set(Bench.FLAGS, flags).set(1, -1).set(11, -1);
+                    Bench bench = new Bench().set(Bench.ENTRY, 0x123456789AL).set(Bench.MASK, mask).set(Bench.FLAGS, flags)
+                            .set(1, -1).set(11, -1);
                     bench.core.level(user == 1);
                     bench.goes("0F 05", 0x123456789AL).has("register 1", 1, Bench.CODE + 2).has("register 11", 11, flags | 2);
-                    bench.has("flags", Bench.FLAGS, flags & ~mask).has("the level", Bench.LEVEL, 0).has("the stack's", 4, Bench.TOP);
+                    bench.has("flags", Bench.FLAGS, flags & ~mask).has("the level", Bench.LEVEL, 0)
+                            .has("the stack's", 4, Bench.TOP);
                     bench.has("MASK", Bench.MASK, mask).has("ENTRY", Bench.ENTRY, 0x123456789AL);
                 }
             }
         }
         for (long place : new long[] {0, Bench.FIRST_WRONG - 1, Bench.UPPER_HALF, -1, Bench.FIRST_WRONG, Long.MIN_VALUE}) {
-            new Bench().set(Bench.ENTRY, place).goes("48 0F 05", place).has("the next place", 1, Bench.CODE + 3).goes("F3 66 0F 05", place);
+            new Bench().set(Bench.ENTRY, place).goes("48 0F 05", place).has("the next place", 1, Bench.CODE + 3)
+                    .goes("F3 66 0F 05", place);
         }
         Bench bench = new Bench().ends().at(0x7FFE, -2, "0F 05").goesOn("around the end", 0).has("around the end", 1, 0);
         bench.at(0x7FFE, Bench.FIRST_WRONG - 2, "0F 05").goesOn("at the end", 0).has("a wrong next place", 1, Bench.FIRST_WRONG);
@@ -396,7 +283,8 @@ final class FlowSentences {
     private static void systemReturns() {
         for (long place : new long[] {0, 0x123456, Bench.FIRST_WRONG - 1, Bench.UPPER_HALF, -1}) {
             for (long flags : new long[] {0, -1, 2, Bench.DOWN, ~(long) Bench.SEVEN, Bench.OVER, 0xFFFFFFFF00000001L}) {
-                Bench bench = new Bench().set(1, place).set(11, flags).set(Bench.FLAGS, ~flags).set(Bench.MASK, -1).set(Bench.ENTRY, 5);
+                Bench bench = new Bench().set(1, place).set(11, flags).set(Bench.FLAGS, ~flags).set(Bench.MASK, -1)
+                        .set(Bench.ENTRY, 5);
                 bench.goes("0F 07", place).has("the flags", Bench.FLAGS, flags & Bench.SEVEN).has("the level", Bench.LEVEL, 3);
                 bench.has("register 1", 1, place).has("register 11", 11, flags).has("the stack's", 4, Bench.TOP);
             }

@@ -65,12 +65,17 @@ final class MemorySentences {
         bench.done("48 89 03").holds("memory's last 4 bytes", 0x7FF8, 0xFFFFFFFF00000000L).done("48 8B 0B");
         bench.has("the 4 beyond are lost", 1, 0xFFFFFFFFL);
         bench.at(0x7FFF, 0x7FFF, "B8").goesOn("a number beyond memory", 0x8004).has("a number beyond memory", 0, 0);
+        for (long more : new long[] {0x8000, 0x10000, 0x100000000L}) {
+            bench = new Bench().set(Bench.TABLE, 0x1000 + more);
+            Bench.due("a table beyond memory isn't one in it", bench.look(0x6000, READ), -2);
+        }
         // Memory's last 8 bytes are a table's entry as good as any other.
         bench = new Bench().ends().store(0x7FF8, 0x2007).set(Bench.TABLE, 0x7000);
         Bench.due("memory's last entry", bench.look(-1L, READ), 0x7FFF);
         bench = new Bench().map(5, 7).store(0, 0x8877665544332211L).set(3, 0x5000);
         bench.done("48 8B 03").has("memory's first bytes", 0, 0x8877665544332211L);
         bench.done("C6 03 99").holds("memory's first byte", 0, 0x8877665544332299L);
+        bench.at(0, 0x5000, "F9").goesOn("code in memory's first byte", 0x5001).has("its CARRY", Bench.FLAGS, Bench.CARRY);
     }
 
     private static void lowestFirst() {
@@ -81,10 +86,12 @@ final class MemorySentences {
         bench.done("48 8D 80 01 02 00 00").has("a displacement", 0, 0x1817161514131412L);
         bench.set(0, 0x8877665544332211L).done("48 89 03").bytes(Bench.DATA, "00");
         bench.holds("a write", Bench.DATA, 0x8877665544332200L);
-        bench.done("50").done("58").has("the stack's", 0, 0x8877665544332211L).holds("the stack's", Bench.TOP - 7, 0x88776655443322L);
+        bench.done("50").done("58").has("the stack's", 0, 0x8877665544332211L)
+                .holds("the stack's", Bench.TOP - 7, 0x88776655443322L);
         bench.set(4, Bench.TOP).done("66 50").done("66 59").has("the stack's 2", 1, 0x2211);
         bench.goes("EB 10", Bench.CODE + 0x12).goes("E9 01 02 00 00", Bench.CODE + 5 + 0x201);
-        bench.store(Bench.TOP, 0x123456).set(4, Bench.TOP).goes("C2 01 02", 0x123456).has("C2's number", 4, Bench.TOP + 8 + 0x201);
+        bench.store(Bench.TOP, 0x123456).set(4, Bench.TOP).goes("C2 01 02", 0x123456)
+                .has("C2's number", 4, Bench.TOP + 8 + 0x201);
     }
 
     private static void registers() {
@@ -100,13 +107,18 @@ final class MemorySentences {
         }
         for (int register = 0; register < 16; register++) {
             Bench bench = new Bench().set(register, -1);
-            bench.done(Bench.hex(0x48 | register >> 3, 1) + "FF" + Bench.hex(0xC0 | register & 7, 1)).has("-1 and 1", register, 0);
-            bench.done(Bench.hex(0x48 | register >> 3, 1) + "FF" + Bench.hex(0xC8 | register & 7, 1)).has("0 less 1", register, -1);
+            bench.done(Bench.hex(0x48 | register >> 3, 1) + "FF" + Bench.hex(0xC0 | register & 7, 1))
+                    .has("-1 and 1", register, 0);
+            bench.done(Bench.hex(0x48 | register >> 3, 1) + "FF" + Bench.hex(0xC8 | register & 7, 1))
+                    .has("0 less 1", register, -1);
         }
-        Bench bench = new Bench().set(3, -8).page("8B 03", -8, 0).set(3, Bench.FIRST_WRONG - 1).page("8A 03", Bench.FIRST_WRONG - 1, 0);
-        bench.set(0, 2).set(1, 3).set(2, 5).set(3, 7).set(5, Bench.DATA).store(Bench.DATA, 0x99).set(6, Bench.DATA).set(7, Bench.DATA + 64);
+        Bench bench = new Bench().set(3, -8).page("8B 03", -8, 0).set(3, Bench.FIRST_WRONG - 1)
+                .page("8A 03", Bench.FIRST_WRONG - 1, 0);
+        bench.set(0, 2).set(1, 3).set(2, 5).set(3, 7).set(5, Bench.DATA).store(Bench.DATA, 0x99).set(6, Bench.DATA)
+                .set(7, Bench.DATA + 64);
         bench.done("F7 E3").has("0 is A", 0, 14).has("2 is D", 2, 0).done("D3 E0").has("1 is C", 0, 112);
-        bench.done("48 A5").has("6 is SOURCE", 6, Bench.DATA + 8).has("7 is GOAL", 7, Bench.DATA + 72).holds("GOAL", Bench.DATA + 64, 0x99);
+        bench.done("48 A5").has("6 is SOURCE", 6, Bench.DATA + 8).has("7 is GOAL", 7, Bench.DATA + 72)
+                .holds("GOAL", Bench.DATA + 64, 0x99);
         bench.done("53").has("4 is the STACK's", 4, Bench.TOP - 8).holds("3 is B", Bench.TOP - 8, 7);
         bench.done("C9").has("5 is the FRAME's", 5, 0x99).has("4 then", 4, Bench.DATA + 8);
         bench.code("90 90").goesOn("NEXT", Bench.CODE + 1).goesOn("NEXT", Bench.CODE + 2);
@@ -140,7 +152,8 @@ final class MemorySentences {
             bench.set(Bench.FLAGS, 1L << bit).has("bit " + bit, Bench.FLAGS, 1L << bit & 3285);
         }
         bench.set(Bench.FLAGS, 0xFFFFFFFF00000000L).has("bits 32 .. 63", Bench.FLAGS, 0);
-        bench.set(Bench.FLAGS, -1).has("all seven", Bench.FLAGS, 3285).set(4, Bench.TOP).done("9C").holds("9C", Bench.TOP - 8, 3287);
+        bench.set(Bench.FLAGS, -1).has("all seven", Bench.FLAGS, 3285).set(4, Bench.TOP).done("9C")
+                .holds("9C", Bench.TOP - 8, 3287);
     }
 
     private static void undefined() {
@@ -402,7 +415,8 @@ final class MemorySentences {
     private static void levelZero() {
         Bench bench = new Bench().store(0x1000, 0x2003).store(0x2000, 0x3003).store(0x3000, 0x4003);
         bench.map(5, 0x5003).map(6, 0x6003).map(7, 0x7003).set(3, 0x5008).set(0, 0x77);
-        bench.done("48 89 03").holds("level 0 writes what level 3 may not use", 0x5008, 0x77).done("48 8B 0B").done("50").done("5A");
+        bench.done("48 89 03").holds("level 0 writes what level 3 may not use", 0x5008, 0x77).done("48 8B 0B").done("50")
+                .done("5A");
         bench.map(5, 0x5001).done("48 8B 0B").page("48 89 03", 0x5008, 3).map(5, 0x5005).page("48 89 03", 0x5008, 3);
         bench.map(7, 0x7001).page("50", Bench.TOP - 8, 3).done("5A");
         bench.core.level(true);
@@ -446,7 +460,8 @@ final class MemorySentences {
         bench.at(0x7FFE, -2, "B8 78").bytes(0x5000, "563412").goesOn("a FETCH", 3).has("a FETCH", 0, 0x12345678L);
         bench.at(0x7FFF, -1, "90").goesOn("the last byte", 0).at(0x7FFE, -2, "EB 10").goesOn("a jump", 0x10);
         bench.at(0x5000, 0, "EB F0").goesOn("a jump back", -14);
-        bench.set(6, -1).set(7, 0x5100).done("A4").has("SOURCE", 6, 0).set(6, 0).set(Bench.FLAGS, Bench.DOWN).done("A4").has("SOURCE", 6, -1);
+        bench.set(6, -1).set(7, 0x5100).done("A4").has("SOURCE", 6, 0).set(6, 0).set(Bench.FLAGS, Bench.DOWN).done("A4")
+                .has("SOURCE", 6, -1);
         bench.set(3, 16).done("8A 43 EF").set(3, -1).set(1, 1).done("8A 04 0B");
         bench = new Bench().ends().map(0, 0).set(3, -4).page("48 8B 03", 0, 0).done("8B 03");
         bench.set(3, -1).page("66 89 03", 0, 2).map(511, 0).page("66 89 03", -1, 2);

@@ -117,12 +117,16 @@ final class OpcodeSentences {
                 lessWithCarry(bytes, 5, 4, carry, 1 - carry, 0);
             }
         }
-        Bench bench = new Bench().set(0, 0x0F).set(Bench.FLAGS, Bench.CARRY).done("14 00").has("HALF by CARRY", Bench.FLAGS, Bench.HALF);
-        bench.set(0, 0x10).set(Bench.FLAGS, Bench.CARRY).done("1C 00").has("HALF by CARRY", Bench.FLAGS, Bench.HALF | Bench.PARITY);
-        bench.set(0, 0x7F).set(Bench.FLAGS, Bench.CARRY).done("14 00").has("OVER by CARRY", Bench.FLAGS, Bench.OVER | Bench.SIGN | Bench.HALF);
+        Bench bench = new Bench().set(0, 0x0F).set(Bench.FLAGS, Bench.CARRY).done("14 00")
+                .has("HALF by CARRY", Bench.FLAGS, Bench.HALF);
+        bench.set(0, 0x10).set(Bench.FLAGS, Bench.CARRY).done("1C 00")
+                .has("HALF by CARRY", Bench.FLAGS, Bench.HALF | Bench.PARITY);
+        bench.set(0, 0x7F).set(Bench.FLAGS, Bench.CARRY).done("14 00")
+                .has("OVER by CARRY", Bench.FLAGS, Bench.OVER | Bench.SIGN | Bench.HALF);
         bench.set(0, 0x80).set(Bench.FLAGS, Bench.CARRY).done("1C 00").has("OVER by CARRY", Bench.FLAGS, Bench.OVER | Bench.HALF);
         // The others go without it.
-        bench.set(Bench.FLAGS, Bench.CARRY).set(0, 1).done("04 01").has("ADD", 0, 2).set(Bench.FLAGS, Bench.CARRY).done("2C 01").has("SUB", 0, 1);
+        bench.set(Bench.FLAGS, Bench.CARRY).set(0, 1).done("04 01").has("ADD", 0, 2).set(Bench.FLAGS, Bench.CARRY).done("2C 01")
+                .has("SUB", 0, 1);
         bench.set(Bench.FLAGS, Bench.CARRY).done("3C 01").has("CMP", Bench.FLAGS, Bench.ZERO | Bench.PARITY);
     }
 
@@ -167,9 +171,14 @@ final class OpcodeSentences {
             String number = Bench.hex(-1, Math.min(bytes, 4));
             Bench bench = new Bench().set(3, top | 1).set(1, top);
             bench.done(sized(bytes, 0x84) + "CB").has("84, 85", Bench.FLAGS, Bench.SIGN | even).has("e stays", 3, top | 1);
-            bench.has("g stays", 1, top).set(1, top >>> 1 & ~1L).done(sized(bytes, 0x84) + "CB").has("nothing alike", Bench.FLAGS, zero);
-            bench.set(0, top).done(sized(bytes, 0xA8) + number).has("A8, A9", Bench.FLAGS, Bench.SIGN | even).has("stays", 0, top);
-            bench.set(0, bytes == 8 ? 0 : ~Bench.mask(bytes)).done(sized(bytes, 0xA8) + number).has("beyond it", Bench.FLAGS, zero);
+            bench.has("g stays", 1, top).set(1, top >>> 1 & ~1L).done(sized(bytes, 0x84) + "CB")
+                    .has("nothing alike", Bench.FLAGS, zero);
+            bench.set(0, top).done(sized(bytes, 0xA8) + number).has("A8, A9", Bench.FLAGS, Bench.SIGN | even)
+                    .has("stays", 0, top);
+            bench.set(0, bytes == 8 ? 0 : ~Bench.mask(bytes)).done(sized(bytes, 0xA8) + number)
+                    .has("beyond it", Bench.FLAGS, zero);
+            bench.set(0, -1).done(sized(bytes, 0xA8) + Bench.hex(5, Math.min(bytes, 4))).has("it changes nothing", 0, -1);
+            bench.set(3, -1).set(1, 5).done(sized(bytes, 0x84) + "CB").has("nor e", 3, -1).has("nor g", 1, 5);
             bench.map(5, 0x5005).set(3, Bench.DATA).done(sized(bytes, 0x84) + "0B");
         }
         new Bench().set(0, 0x1200).done("84 E4").has("bits 8 .. 15", Bench.FLAGS, Bench.PARITY);
@@ -193,23 +202,27 @@ final class OpcodeSentences {
         for (int bytes : SIZES) {
             Bench bench = new Bench().set(3, OLD).set(1, OTHER).set(Bench.FLAGS, Bench.SEVEN).done(sized(bytes, 0x88) + "CB");
             bench.has("88, 89", 3, Bench.kept(OLD, OTHER, bytes)).has("88, 89", 1, OTHER);
-            bench.set(3, OLD).done(sized(bytes, 0x8A) + "CB").has("8A, 8B", 1, Bench.kept(OTHER, OLD, bytes)).has("8A, 8B", 3, OLD);
+            bench.set(3, OLD).done(sized(bytes, 0x8A) + "CB").has("8A, 8B", 1, Bench.kept(OTHER, OLD, bytes))
+                    .has("8A, 8B", 3, OLD);
             String number = Bench.hex(-2, Math.min(bytes, 4));
             bench.done(sized(bytes, 0xC6) + "C3" + number).has("C6, C7", 3, Bench.kept(OLD, -2, bytes));
             for (int o = 0; o < 8; o++) {
                 int goal = bytes == 1 ? o & 3 : o;
-                bench.set(goal, OLD).done(Bench.prefix(bytes) + Bench.hex((bytes == 1 ? 0xB0 : 0xB8) | o, 1) + Bench.hex(OTHER, bytes));
+                bench.set(goal, OLD)
+                        .done(Bench.prefix(bytes) + Bench.hex((bytes == 1 ? 0xB0 : 0xB8) | o, 1) + Bench.hex(OTHER, bytes));
                 long upper = OLD & ~0xFF00L | (OTHER & 255) << 8;
                 bench.has("B0 .. BF", goal, bytes == 1 && o > 3 ? upper : Bench.kept(OLD, OTHER, bytes));
             }
             bench.has("no flags", Bench.FLAGS, Bench.SEVEN).set(3, 0x9000).page(sized(bytes, 0x88) + "0B", 0x9000, 2);
             bench.page(sized(bytes, 0x8A) + "0B", 0x9000, 0).page(sized(bytes, 0xC6) + "03" + number, 0x9000, 2);
-            bench.set(3, Bench.DATA).map(5, 0x5005).done(sized(bytes, 0x8A) + "0B").page(sized(bytes, 0x88) + "0B", Bench.DATA, 3);
+            bench.set(3, Bench.DATA).map(5, 0x5005).done(sized(bytes, 0x8A) + "0B")
+                    .page(sized(bytes, 0x88) + "0B", Bench.DATA, 3);
             for (int reg = 1; reg < 8; reg++) {
                 bench.refused(sized(bytes, 0xC6) + Bench.hex(0xC3 | reg << 3, 1) + number, Bench.UNKNOWN);
             }
         }
-        new Bench().done("48 B8 FFFFFFFFFFFFFF7F").has("8 bytes", 0, Long.MAX_VALUE).done("B8 FFFFFFFF").has("4 bytes", 0, 0xFFFFFFFFL);
+        new Bench().done("48 B8 FFFFFFFFFFFFFF7F").has("8 bytes", 0, Long.MAX_VALUE).done("B8 FFFFFFFF")
+                .has("4 bytes", 0, 0xFFFFFFFFL);
         new Bench().done("66 48 BB 0000000000000080").has("66 with W", 3, Long.MIN_VALUE);
     }
 
@@ -259,10 +272,12 @@ final class OpcodeSentences {
             String prefix = Bench.prefix(bytes);
             for (long value : new long[] {low, low - 1, 0, -1, top, top - 1, beyond | low, beyond | top}) {
                 Bench bench = new Bench().set(0, value).set(2, OLD).set(Bench.FLAGS, Bench.SEVEN);
-                bench.done(prefix + "99").has("99 of " + bytes, 2, Bench.kept(OLD, (value & top) != 0 ? -1 : 0, bytes)).has("stays", 0, value);
+                bench.done(prefix + "99").has("99 of " + bytes, 2, Bench.kept(OLD, (value & top) != 0 ? -1 : 0, bytes))
+                        .has("stays", 0, value);
                 long half = value & (low << 1) - 1;
                 long whole = (value & low) != 0 ? half | -low : half;
-                bench.done(prefix + "98").has("98 of " + bytes, 0, Bench.kept(value, whole, bytes)).has("no flags", Bench.FLAGS, Bench.SEVEN);
+                bench.done(prefix + "98").has("98 of " + bytes, 0, Bench.kept(value, whole, bytes))
+                        .has("no flags", Bench.FLAGS, Bench.SEVEN);
             }
         }
     }
@@ -292,9 +307,14 @@ final class OpcodeSentences {
     private static void neighbour(int bytes, boolean more, long value, long want, int flags, int carry) {
         String reg = more ? "C3" : "CB";
         Bench bench = new Bench().set(3, value).set(Bench.FLAGS, carry | Bench.DOWN).set(Bench.UNDEFINED, 1 - carry);
-        bench.done(sized(bytes, 0xFE) + reg).has("register of " + bytes, 3, want).has("flags", Bench.FLAGS, flags | carry | Bench.DOWN);
+        bench.done(sized(bytes, 0xFE) + reg).has("register of " + bytes, 3, want)
+                .has("flags", Bench.FLAGS, flags | carry | Bench.DOWN);
         bench.set(3, Bench.DATA).store(Bench.DATA, value).done(sized(bytes, 0xFE) + (more ? "03" : "0B"));
-        bench.holds("memory of " + bytes, Bench.DATA, want).map(5, 0x5005).page(sized(bytes, 0xFE) + (more ? "03" : "0B"), Bench.DATA, 3);
+        long beyond = bytes == 8 ? 0 : 0x5500000000000000L;
+        bench.holds("memory of " + bytes, Bench.DATA, want).store(Bench.DATA, beyond | value)
+                .done(sized(bytes, 0xFE) + (more ? "03" : "0B"));
+        bench.holds("what lies behind it", Bench.DATA, beyond | want).map(5, 0x5005)
+                .page(sized(bytes, 0xFE) + (more ? "03" : "0B"), Bench.DATA, 3);
     }
 
     private static void byReg() {
@@ -306,9 +326,11 @@ final class OpcodeSentences {
             String number = Bench.hex(-1, Math.min(bytes, 4));
             Bench bench = new Bench().set(3, top).set(Bench.FLAGS, Bench.SIX).done(opcode + "C3" + number);
             bench.has("TEST", Bench.FLAGS, Bench.SIGN | even).has("TEST", 3, top);
+            bench.set(3, -1).done(opcode + "C3" + Bench.hex(5, Math.min(bytes, 4))).has("TEST changes nothing", 3, -1);
             bench.refused(opcode + "CB" + number, Bench.UNKNOWN).set(Bench.FLAGS, Bench.SEVEN);
             bench.set(3, 0).done(opcode + "D3").has("all bits of 0", 3, mask).done(opcode + "D3").has("all bits of 1s", 3, 0);
-            bench.has("no flags", Bench.FLAGS, Bench.SEVEN).set(Bench.FLAGS, 0).done(opcode + "D3").has("no flags", Bench.FLAGS, 0);
+            bench.has("no flags", Bench.FLAGS, Bench.SEVEN).set(Bench.FLAGS, 0).done(opcode + "D3")
+                    .has("no flags", Bench.FLAGS, 0);
             bench.set(3, 0).set(Bench.FLAGS, Bench.SIX).done(opcode + "DB").has("0 less 0", 3, 0);
             bench.has("0 less 0", Bench.FLAGS, Bench.ZERO | Bench.PARITY).set(3, 1).done(opcode + "DB").has("0 less 1", 3, mask);
             bench.has("0 less 1", Bench.FLAGS, Bench.CARRY | Bench.HALF | Bench.SIGN | Bench.PARITY);
@@ -330,7 +352,8 @@ final class OpcodeSentences {
 
     private static void product(int bytes, boolean signs, long first, long second, long low, long high, boolean spills) {
         for (int open : new int[] {0, -1}) {
-            Bench bench = new Bench().set(0, Bench.kept(OLD, first, bytes) | (bytes >= 4 ? 0 : OLD & ~Bench.mask(bytes))).set(2, OTHER);
+            Bench bench = new Bench().set(0, Bench.kept(OLD, first, bytes) | (bytes >= 4 ? 0 : OLD & ~Bench.mask(bytes)))
+                    .set(2, OTHER);
             bench.set(3, second).set(Bench.FLAGS, Bench.DOWN | ~open & Bench.SIX).set(Bench.UNDEFINED, open);
             bench.done(sized(bytes, 0xF6) + (signs ? "EB" : "E3"));
             String what = (signs ? "IMUL of " : "MUL of ") + bytes + ": " + first + " times " + second;
@@ -352,6 +375,8 @@ final class OpcodeSentences {
             product(bytes, false, root - 1, root + 1, mask, 0, false);
             product(bytes, false, top, 2, 0, 1, true);
             product(bytes, true, 0, mask, 0, 0, false);
+            product(bytes, true, mask, 0, 0, 0, false);
+            product(bytes, true, top, 0, 0, 0, false);
             product(bytes, true, 1, mask, mask, mask, false);
             product(bytes, true, mask, mask, 1, 0, false);
             product(bytes, true, top, mask, top, 0, true);
@@ -360,7 +385,8 @@ final class OpcodeSentences {
             product(bytes, true, top - 1, 2, mask - 1, 0, true);
             product(bytes, true, top - 1, 1, top - 1, 0, false);
             product(bytes, true, root, root, 0, 1, true);
-            Bench bench = new Bench().set(3, 0x9000).page(sized(bytes, 0xF6) + "23", 0x9000, 0).page(sized(bytes, 0xF6) + "2B", 0x9000, 0);
+            Bench bench = new Bench().set(3, 0x9000).page(sized(bytes, 0xF6) + "23", 0x9000, 0)
+                    .page(sized(bytes, 0xF6) + "2B", 0x9000, 0);
         }
     }
 
@@ -429,11 +455,15 @@ final class OpcodeSentences {
         for (int open : new int[] {0, -1}) {
             int both = Bench.CARRY | Bench.OVER;
             int flags = Bench.DOWN | (spills ? both : 0) | open & Bench.SIX & ~both;
-            Bench bench = new Bench().set(Bench.FLAGS, Bench.SEVEN).set(Bench.UNDEFINED, open).set(3, first).set(1, second).set(2, OLD);
-            bench.done(Bench.prefix(bytes) + "0F AF D9").has("0F AF of " + bytes, 3, Bench.kept(first, low, bytes)).has("flags", Bench.FLAGS, flags);
+            Bench bench = new Bench().set(Bench.FLAGS, Bench.SEVEN).set(Bench.UNDEFINED, open).set(3, first).set(1, second)
+                    .set(2, OLD);
+            bench.done(Bench.prefix(bytes) + "0F AF D9").has("0F AF of " + bytes, 3, Bench.kept(first, low, bytes))
+                    .has("flags", Bench.FLAGS, flags);
             if (second == (int) second) {
-                bench.set(Bench.FLAGS, Bench.SEVEN).set(3, first).done(Bench.prefix(bytes) + "69 D3" + Bench.hex(second, Math.min(bytes, 4)));
-                bench.has("69 of " + bytes, 2, Bench.kept(OLD, low, bytes)).has("flags", Bench.FLAGS, flags).has("e stays", 3, first);
+                bench.set(Bench.FLAGS, Bench.SEVEN).set(3, first)
+                        .done(Bench.prefix(bytes) + "69 D3" + Bench.hex(second, Math.min(bytes, 4)));
+                bench.has("69 of " + bytes, 2, Bench.kept(OLD, low, bytes)).has("flags", Bench.FLAGS, flags)
+                        .has("e stays", 3, first);
             }
             if (second == (byte) second) {
                 bench.set(Bench.FLAGS, Bench.SEVEN).set(2, OLD).done(Bench.prefix(bytes) + "6B D3" + Bench.hex(second, 1));
@@ -456,7 +486,8 @@ final class OpcodeSentences {
             shortProduct(bytes, top >>> 1, -2, top, false);
             shortProduct(bytes, root, root, 0, true);
             shortProduct(bytes, 127, -128, -16256, false);
-            Bench bench = new Bench().set(3, 0x9000).page(Bench.prefix(bytes) + "0F AF 03", 0x9000, 0).page(Bench.prefix(bytes) + "6B 03 00", 0x9000, 0);
+            Bench bench = new Bench().set(3, 0x9000).page(Bench.prefix(bytes) + "0F AF 03", 0x9000, 0)
+                    .page(Bench.prefix(bytes) + "6B 03 00", 0x9000, 0);
         }
     }
 }

@@ -37,7 +37,8 @@ final class OperandSentences {
 
     private static void prefixes() {
         Bench bench = new Bench();
-        bench.set(0, OLD).done("B8 01000000").has("no prefix", 0, 1).set(0, OLD).done("66 B8 0100").has("66", 0, Bench.kept(OLD, 1, 2));
+        bench.set(0, OLD).done("B8 01000000").has("no prefix", 0, 1).set(0, OLD).done("66 B8 0100")
+                .has("66", 0, Bench.kept(OLD, 1, 2));
         bench.set(0, OLD).done("66 66 F2 F3 66 B8 0100").has("any of them", 0, Bench.kept(OLD, 1, 2));
         bench.set(0, OLD).done("48 B8 0100000000000080").has("W", 0, 0x8000000000000001L);
         bench.set(0, OLD).done("48 66 B8 0100").has("REX before 66", 0, Bench.kept(OLD, 1, 2));
@@ -130,8 +131,10 @@ final class OperandSentences {
                 }
             }
             // RM 4 and 5 are registers too, and a wrong place in one of them is no matter.
-            bench.set(register, Bench.FIRST_WRONG).done(rex + "8B" + Bench.hex(0xC0 | low, 1)).has("a value", 0, Bench.FIRST_WRONG);
-            bench = new Bench().set(low, 1).set(8 | low, 2).done("4A F7" + Bench.hex(0xD0 | low, 1)).has("X is no matter", low, ~1L);
+            bench.set(register, Bench.FIRST_WRONG).done(rex + "8B" + Bench.hex(0xC0 | low, 1))
+                    .has("a value", 0, Bench.FIRST_WRONG);
+            bench = new Bench().set(low, 1).set(8 | low, 2).done("4A F7" + Bench.hex(0xD0 | low, 1))
+                    .has("X is no matter", low, ~1L);
         }
     }
 
@@ -155,15 +158,17 @@ final class OperandSentences {
                 String end = Bench.hex(sib, 1);
                 Bench bench = weighted();
                 boolean none = (sib & 7) == 5;
-                bench.done(start + "3C" + end + (none ? "44332281" : "")).has("MOD 0", 15, none ? scaled + (int) 0x81223344 : full);
+                bench.done(start + "3C" + end + (none ? "44332281" : ""))
+                        .has("MOD 0", 15, none ? scaled + 0x81223344 : full);
                 bench = weighted().done(start + "7C" + end + "81").has("MOD 1", 15, full - 127);
-                weighted().done(start + "BC" + end + "44332281").has("MOD 2", 15, full + (int) 0x81223344);
+                weighted().done(start + "BC" + end + "44332281").has("MOD 2", 15, full + 0x81223344);
             }
         }
         // Index 4 is none, index 12 is one; a scaled index goes around the end.
         Bench bench = new Bench().set(4, Bench.TOP).set(12, 3).done("4A 8D 04 64").has("index 12", 0, Bench.TOP + 6);
         bench.done("48 8D 04 E4").has("no index", 0, Bench.TOP);
-        bench.set(1, 1L << 61).set(3, 5).done("48 8D 04 CB").has("2^61 times 8", 0, 5).set(1, -1).done("48 8D 04 CB").has("-1 times 8", 0, -3);
+        bench.set(1, 1L << 61).set(3, 5).done("48 8D 04 CB").has("2^61 times 8", 0, 5).set(1, -1).done("48 8D 04 CB")
+                .has("-1 times 8", 0, -3);
     }
 
     private static void fromNext() {
@@ -172,7 +177,8 @@ final class OperandSentences {
         bench.done("4B 8D 05 FFFFFFFF").has("-1", 0, Bench.CODE + 6);
         bench.done("48 8D 05 FFFFFF7F").has("the greatest", 0, Bench.CODE + 7 + (long) Integer.MAX_VALUE);
         bench.done("48 8D 05 00000080").has("the least", 0, Bench.CODE + 7 + (long) Integer.MIN_VALUE);
-        bench.done("48 8D 45 01").has("not with MOD 1", 0, (1L << 40) + 1).done("48 8D 85 01000000").has("nor 2", 0, (1L << 40) + 1);
+        bench.done("48 8D 45 01").has("not with MOD 1", 0, (1L << 40) + 1).done("48 8D 85 01000000")
+                .has("nor 2", 0, (1L << 40) + 1);
         // The next instruction begins behind the number.
         bench.store(Bench.CODE + 0x100, 0x50).done("80 05 F9000000 01").holds("a number of 1", Bench.CODE + 0x100, 0x51);
         bench.done("66 81 05 F7000000 0100").holds("a number of 2", Bench.CODE + 0x100, 0x52);
@@ -204,12 +210,14 @@ final class OperandSentences {
     private static void displacements() {
         int[] shorts = {0, 1, 127, -128, -1};
         for (int number : shorts) {
-            Bench bench = new Bench().set(3, 100).done("48 8D 43" + Bench.hex(number, 1)).has("1 byte " + number, 0, 100 + number);
+            Bench bench = new Bench().set(3, 100).done("48 8D 43" + Bench.hex(number, 1))
+                    .has("1 byte " + number, 0, 100 + number);
             bench.done("48 8D 44 23" + Bench.hex(number, 1)).has("1 byte behind SIB", 0, 100 + number);
         }
         int[] longs = {0, 1, 128, 255, -1, -129, Integer.MAX_VALUE, Integer.MIN_VALUE};
         for (int number : longs) {
-            Bench bench = new Bench().set(3, 100).done("48 8D 83" + Bench.hex(number, 4)).has("4 bytes " + number, 0, 100L + number);
+            Bench bench = new Bench().set(3, 100).done("48 8D 83" + Bench.hex(number, 4))
+                    .has("4 bytes " + number, 0, 100L + number);
             bench.done("48 8D 04 25" + Bench.hex(number, 4)).has("4 bytes without a base", 0, number);
             bench.set(3, -100).done("66 8D 83" + Bench.hex(number, 4));
         }
@@ -250,7 +258,8 @@ final class OperandSentences {
                 bench.set(i, 0x1111111111111111L * (i + 1 & 15));
             }
             String modrm = Bench.hex(0xC0 | register, 1);
-            bench.done("C6" + modrm + "FE").has("without REX", whole, register < 4 ? old & ~0xFFL | 0xFE : old & ~0xFF00L | 0xFE00);
+            bench.done("C6" + modrm + "FE")
+                    .has("without REX", whole, register < 4 ? old & ~0xFFL | 0xFE : old & ~0xFF00L | 0xFE00);
             if (register >= 4) {
                 bench.has("its own lowest bits stay", register, 0x1111111111111111L * (register + 1));
             }
@@ -262,7 +271,8 @@ final class OperandSentences {
         }
         Bench bench = new Bench().set(0, 0xFF01).done("00 E0").has("e and g in one register", 0, 0xFF00);
         bench.set(0, 0x1234).done("86 C4").has("86 within one register", 0, 0x3412);
-        bench.set(4, 0x7FF0).set(0, 0).done("40 88 E0").has("g with REX", 0, 0xF0).set(0, 0x9900).done("88 E0").has("g without", 0, 0x9999);
+        bench.set(4, 0x7FF0).set(0, 0).done("40 88 E0").has("g with REX", 0, 0xF0).set(0, 0x9900).done("88 E0")
+                .has("g without", 0, 0x9999);
         bench.set(0, 0x1200).done("84 E4").has("84", Bench.FLAGS, Bench.PARITY).set(3, 0).done("B7 7F").has("B7", 3, 0x7F00);
         bench.set(0, 0xFF).done("0F 9F C4").has("0F 9F to bits 8 .. 15", 0, 0x1FF);
     }
@@ -284,8 +294,10 @@ final class OperandSentences {
             bench.set(0, -1).set(6, Bench.DATA + 64).done(prefix + (bytes == 1 ? "AC" : "AD"));
             bench.has("LODS of " + bytes, 0, bytes == 1 ? -256 : bytes == 2 ? -65536 : 0);
         }
-        Bench bench = new Bench().set(3, -1).done("66 5B").has("POP of 2", 3, -65536).set(3, -1).done("21 DB").has("4 bytes alike", 3, 0xFFFFFFFFL);
-        bench.set(3, -1).done("87 DB").has("87 with itself", 3, 0xFFFFFFFFL).set(3, -1).done("66 0F B6 D8").set(3, -1).done("89 DB");
+        Bench bench = new Bench().set(3, -1).done("66 5B").has("POP of 2", 3, -65536).set(3, -1).done("21 DB")
+                .has("4 bytes alike", 3, 0xFFFFFFFFL);
+        bench.set(3, -1).done("87 DB").has("87 with itself", 3, 0xFFFFFFFFL).set(3, -1).done("66 0F B6 D8").set(3, -1)
+                .done("89 DB");
         bench.has("89 to itself", 3, 0xFFFFFFFFL).set(3, -1).done("39 DB").has("CMP writes nothing", 3, -1);
         bench.done("85 DB").has("TEST writes nothing", 3, -1).done("66 FF C3").has("1 more of 2", 3, -65536);
     }
@@ -295,7 +307,8 @@ final class OperandSentences {
             int z = Math.min(bytes, 4);
             for (long number : new long[] {0, 1, -1, 0x7F, -0x80, 0x7FFF, -0x8000, Integer.MAX_VALUE, Integer.MIN_VALUE}) {
                 long value = Bench.signed(number, z);
-                Bench bench = new Bench().set(3, 0).done(Bench.prefix(bytes) + (bytes == 1 ? "C6" : "C7") + "C3" + Bench.hex(number, z));
+                Bench bench = new Bench().set(3, 0)
+                        .done(Bench.prefix(bytes) + (bytes == 1 ? "C6" : "C7") + "C3" + Bench.hex(number, z));
                 bench.has("i of " + bytes, 3, value & Bench.mask(bytes));
                 bench.set(0, 0).done(Bench.prefix(bytes) + (bytes == 1 ? "0C" : "0D") + Bench.hex(number, z));
                 bench.has("with register 0", 0, value & Bench.mask(bytes));
@@ -330,6 +343,13 @@ final class OperandSentences {
             flagsOf(bytes, top - 1, bytes == 1 ? 0 : Bench.PARITY);
             flagsOf(bytes, -1, Bench.SIGN | Bench.PARITY);
             flagsOf(bytes, beyond | top >>> 1, bytes == 1 ? 0 : Bench.PARITY);
+            // What goes out of the size is no part of the result.
+            Bench bench = new Bench().set(3, Bench.mask(bytes)).set(1, 1)
+                    .done(Bench.prefix(bytes) + (bytes == 1 ? "00" : "01") + "CB");
+            int three = Bench.ZERO | Bench.SIGN | Bench.PARITY;
+            Bench.due("a result of 0", bench.get(Bench.FLAGS) & three, Bench.ZERO | Bench.PARITY);
+            bench.set(3, 0).set(1, 1).done(Bench.prefix(bytes) + (bytes == 1 ? "28" : "29") + "CB");
+            Bench.due("a result of 1s", bench.get(Bench.FLAGS) & three, Bench.SIGN | Bench.PARITY);
         }
         for (int value = 0; value < 256; value++) {
             int parity = Integer.bitCount(value) % 2 == 0 ? Bench.PARITY : 0;
@@ -361,6 +381,10 @@ final class OperandSentences {
             sum(bytes, 0x0F, 0x10, 0);
             sum(bytes, 7, 8, Bench.PARITY);
             sum(bytes, 0, 0, zero);
+            sum(bytes, 5, -10, Bench.SIGN);
+            sum(bytes, -10, 5, Bench.SIGN);
+            sum(bytes, 10, -5, Bench.CARRY | Bench.HALF | Bench.PARITY);
+            sum(bytes, -5, 10, Bench.CARRY | Bench.HALF | Bench.PARITY);
             difference(bytes, 0, 1, Bench.CARRY | Bench.HALF | Bench.SIGN | Bench.PARITY);
             difference(bytes, top, 1, Bench.OVER | Bench.HALF | (bytes == 1 ? 0 : Bench.PARITY));
             difference(bytes, 0, top, Bench.OVER | Bench.CARRY | Bench.SIGN | even);
@@ -368,6 +392,9 @@ final class OperandSentences {
             difference(bytes, 0x10, 1, Bench.HALF | Bench.PARITY);
             difference(bytes, 0x1F, 0x0F, 0);
             difference(bytes, 5, 5, zero);
+            difference(bytes, 5, 10, Bench.CARRY | Bench.HALF | Bench.SIGN);
+            difference(bytes, -10, 5, Bench.SIGN);
+            difference(bytes, 10, -5, Bench.CARRY | Bench.HALF | Bench.PARITY);
             difference(bytes, -1, -1, zero);
             difference(bytes, top, top, zero);
         }
@@ -386,7 +413,8 @@ final class OperandSentences {
         String what = first + " less " + second + " of " + bytes;
         for (int before : new int[] {0, Bench.SEVEN}) {
             Bench bench = new Bench().set(3, first).set(1, second).set(Bench.FLAGS, before).set(Bench.UNDEFINED, ~before);
-            bench.done(Bench.prefix(bytes) + (bytes == 1 ? "38" : "39") + "CB").has(what, Bench.FLAGS, want | before & Bench.DOWN);
+            bench.done(Bench.prefix(bytes) + (bytes == 1 ? "38" : "39") + "CB")
+                    .has(what, Bench.FLAGS, want | before & Bench.DOWN);
             bench.done(Bench.prefix(bytes) + (bytes == 1 ? "28" : "29") + "CB");
             bench.has(what, Bench.FLAGS, want | before & Bench.DOWN).has(what, 3, Bench.kept(first, first - second, bytes));
         }

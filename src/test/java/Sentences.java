@@ -8,6 +8,7 @@ import java.util.List;
 final class Sentences {
     private static final Path DOCUMENT = Path.of("../shared/DOC.md");
     private static final List<String> NAMED = new ArrayList<>();
+    private static int tests;
 
     private Sentences() {
     }
@@ -15,9 +16,14 @@ final class Sentences {
     /** A test of its own for what the sentence says; the sentence stands there word by word. */
     static void test(String sentence, Runnable test) {
         NAMED.add(sentence);
+        tests++;
         int asked = Bench.asked();
         int wrong = Bench.wrong();
-        test.run();
+        try {
+            test.run();
+        } catch (RuntimeException thrown) {
+            Bench.due(thrown + " was thrown: " + sentence, 1, 0);
+        }
         Bench.due("no answer was asked: " + sentence, Bench.asked() == asked ? 1 : 0, 0);
         if (Bench.wrong() > wrong) {
             System.out.println("NOT HELD: " + sentence);
@@ -27,6 +33,10 @@ final class Sentences {
     /** What names no case that a call could answer. */
     static void withoutTest(String text) {
         NAMED.add(text);
+    }
+
+    static int tests() {
+        return tests;
     }
 
     /** Every word of the document stands in a sentence that was named. */

@@ -10,8 +10,10 @@ final class SentencesTest {
         OpcodeSentences.all();
         BitSentences.all();
         FlowSentences.all();
+        StringSentences.all();
         withoutTests();
         Sentences.coverDocument();
+        System.out.println("SentencesTest: " + Sentences.tests() + " sentences, each with a test of its own");
         Bench.finish("SentencesTest");
     }
 

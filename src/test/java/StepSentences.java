@@ -43,7 +43,8 @@ final class StepSentences {
         bench.refused("41 FF D0", 13);
         bench.has("FAULT stays at the others", Bench.FAULT, 0x9123).has("and so does the CODE", Bench.FAULT_CODE, 2);
         bench.core.level(true);
-        bench.refused("0F 07", 13).page("8B 07", 0x9123, 4).page("88 07", 0x9123, 6).set(Bench.NEXT, 0x9000).pageHere("a FETCH", 0x9000, 20);
+        bench.refused("0F 07", 13).page("8B 07", 0x9123, 4).page("88 07", 0x9123, 6).set(Bench.NEXT, 0x9000)
+                .pageHere("a FETCH", 0x9000, 20);
         bench.core.level(false);
         bench.set(7, Bench.FIRST_WRONG).refused("F3 A4", 13).refused("F2 AE", 13).refused("A6", 13);
         bench.set(4, Bench.FIRST_WRONG + 8).refused("50", 12).refused("E8 00000000", 12).refused("9C", 12).refused("9D", 12);
@@ -62,9 +63,11 @@ final class StepSentences {
         String[] whole = {"90", "40 90", "04 05", "B0 05", "B8 01020304", "48 B8 0102030405060708", "66 B8 0102", "89 D8",
             "F7 D3", "F6 C3 01", "F7 C3 01000000", "66 F7 C3 0100", "C1 E3 01", "D1 E3", "0F BA E3 01", "0F C8", "6B DB 02",
             "69 DB 02000000", "66 69 DB 0200", "8D 43 01", "8D 83 01000000", "8D 04 0B", "8D 05 00000000", "8D 04 25 00000000",
-            "50", "6A 00", "68 00000000", "66 68 0000"};
+            "50", "6A 00", "68 00000000", "66 68 0000", "F6 D3", "F6 E3", "F7 E3", "FE C3", "FF C3", "D0 E3", "D2 E3", "EB 00", "71 00",
+            "E9 00000000", "0F 81 00000000", "E8 00000000", "C3", "C2 0000", "E2 00", "E3 00"};
         for (String text : whole) {
-            atTheEnd(text).goesOn(text + " needs no more", 0x8000);
+            // C2 and C3 come back to the next place, to which the jumps go.
+            atTheEnd(text).store(Bench.TOP, 0x8000).goesOn(text + " needs no more", 0x8000);
         }
         String[] more = {"0F", "66", "F3", "48", "00", "0F AF", "B8", "B8 010203", "48 B8 01020304050607", "04", "8D 04", "8D 43",
             "8D 83 010000", "8D 05 000000", "8D 04 25 000000", "8D 44 0B", "F6 C3", "F7 C3 010000", "66 F7 C3 01", "C1 E3",
@@ -211,7 +214,8 @@ final class StepSentences {
         bench = new Bench().ends().set(3, Bench.FIRST_WRONG - 7).set(5, Bench.FIRST_WRONG - 7).set(4, Bench.FIRST_WRONG - 7);
         bench.refused("48 8B 03", Bench.WRONG).refused("48 89 03", Bench.WRONG).refused("48 8B 45 00", Bench.STACK);
         bench.refused("58", Bench.STACK).refused("C3", Bench.STACK).refused("C9", Bench.STACK);
-        bench.set(3, Bench.FIRST_WRONG - 8).done("48 8B 03").set(4, Bench.FIRST_WRONG).done("50").done("58").refused("58", Bench.STACK);
+        bench.set(3, Bench.FIRST_WRONG - 8).done("48 8B 03").set(4, Bench.FIRST_WRONG).done("50").done("58")
+                .refused("58", Bench.STACK);
         bench.set(4, Bench.UPPER_HALF).refused("50", Bench.STACK).set(4, Bench.UPPER_HALF + 7).refused("50", Bench.STACK);
         bench.set(4, Bench.UPPER_HALF + 8).done("50").has("the upper half's first", 4, Bench.UPPER_HALF);
         // A byte that is REFUSED before one that is wrong is the one that tells.
@@ -260,7 +264,8 @@ final class StepSentences {
         bench.set(6, Bench.FIRST_WRONG - 1).set(7, Bench.DATA).done("A4").has("SOURCE then", 6, Bench.FIRST_WRONG);
         bench.set(4, Bench.FIRST_WRONG - 8).done("58").has("the stack's then", 4, Bench.FIRST_WRONG);
         bench.set(0, -1).set(2, 0).set(3, 1).done("48 F7 F3").has("the greatest quotient", 0, -1);
-        bench.set(4, Bench.TOP).store(Bench.TOP, Bench.FIRST_WRONG).done("5D").has("a POP of a wrong place", 5, Bench.FIRST_WRONG);
+        bench.set(4, Bench.TOP).store(Bench.TOP, Bench.FIRST_WRONG).done("5D")
+                .has("a POP of a wrong place", 5, Bench.FIRST_WRONG);
         bench.set(4, Bench.TOP).set(5, Bench.TOP).done("C9").has("C9 to a wrong place", 5, Bench.FIRST_WRONG);
     }
 
@@ -297,7 +302,8 @@ final class StepSentences {
             bench.goes("FF E0", place).goes("FF 23", place).goes("C3", place).goes("FF D0", place).goes("FF 13", place);
             bench.set(4, Bench.FIRST_WRONG + 8).refused("FF D0", Bench.STACK).set(4, 0x9008).page("FF D0", 0x9000, 2);
         }
-        bench.set(4, Bench.FIRST_WRONG + 8).at(0x7FF0, Bench.FIRST_WRONG - 16, "E8 00010000").stays("E8, before its PUSH", Bench.WRONG);
+        bench.set(4, Bench.FIRST_WRONG + 8).at(0x7FF0, Bench.FIRST_WRONG - 16, "E8 00010000")
+                .stays("E8, before its PUSH", Bench.WRONG);
         bench.at(0x7FF0, Bench.FIRST_WRONG - 16, "E8 00000000").stays("E8, then its PUSH", Bench.STACK);
     }
 

@@ -4,6 +4,8 @@ import java.util.Random;
 /** Promises 2 to 9: steps of any kind in any state, told by the class and by a second reading of the document. */
 final class SecondReadingTest {
     private static final int[] OPCODES = opcodes();
+    /** Those with many instructions, or with few of them told. */
+    private static final int[] BY_REG = {0x8F, 0xC0, 0xC1, 0xC6, 0xC7, 0xD2, 0xD3, 0xF6, 0xF7, 0xFE, 0xFF, 0xFF, 256 + 0xBA};
 
     private final Random random;
     private final LongModeCore core = new LongModeCore();
@@ -220,6 +222,24 @@ final class SecondReadingTest {
 
     // Instructions
 
+    /** REG as the opcode is told with it, a place by the stack's register, or what can be divided. */
+    private void makeModrm(int opcode, int[] bytes, int at) {
+        if (opcode == 0x8F || opcode == 0xC6 || opcode == 0xC7) {
+            bytes[at] &= chance(9) ? 255 : 0xC7;
+        }
+        if (chance(6)) {
+            bytes[at] = bytes[at] & 0xF8 | 4;
+            bytes[at + 1] = bytes[at + 1] & 0xF8 | 4;
+        }
+        if ((opcode == 0xF6 || opcode == 0xF7) && chance(2)) {
+            long[] edges = {0, 1, -1, 2, 128, -128, 0x80FF, 0x8000, 1L << 31, -1L << 31, 1L << 63};
+            set(0, edges[random.nextInt(edges.length)]);
+            set(2, edges[random.nextInt(3)]);
+            set(3, edges[random.nextInt(edges.length)]);
+            bytes[at] = 0xC3 | 8 * (4 + random.nextInt(4));
+        }
+    }
+
     private String makeCode() {
         StringBuilder text = new StringBuilder();
         int[] bytes = new int[24];
@@ -229,7 +249,7 @@ final class SecondReadingTest {
         for (int i = 0; i < prefixes; i++) {
             bytes[length++] = chance(2) ? each[random.nextInt(3)] : 0x40 + random.nextInt(16);
         }
-        int opcode = OPCODES[random.nextInt(OPCODES.length)];
+        int opcode = chance(4) ? BY_REG[random.nextInt(BY_REG.length)] : OPCODES[random.nextInt(OPCODES.length)];
         if (opcode >= 256) {
             bytes[length++] = 0x0F;
         }
@@ -237,6 +257,7 @@ final class SecondReadingTest {
         for (int i = length; i < bytes.length; i++) {
             bytes[i] = chance(3) ? random.nextInt(4) : random.nextInt(256);
         }
+        makeModrm(opcode, bytes, length);
         long place = 0x6000 + random.nextInt(0x800);
         if (chance(5)) {
             place = anyPlace();

@@ -1,7 +1,7 @@
 import java.util.Arrays;
 import java.util.Random;
 
-/** Promises 2 to 9: steps of any kind in any state, told by the class and by a second reading of the document. */
+/** Promises 7 and 9: steps of any kind in any state, told by the class and by a second reading of the document. */
 final class SecondReadingTest {
     private static final int[] OPCODES = opcodes();
     /** Those with many instructions, or with few of them told. */
